@@ -84,7 +84,10 @@ final class HandTest {
         Check.due("come(0, 1, 1) of another WORKS", x.come(0, 1, 1), 31);
     }
 
-    /** Three BELTS have room for a PARCEL in each STEP of a night; going back makes room again, but NUMBERS stay given. */
+    /**
+     * BELT 0 has room in each STEP until its 8 SLOTS are full, then in every second one, since BELT 1 acts behind it.
+     * Going back makes room again, but NUMBERS stay given.
+     */
     private static void numbersAreFull() {
         Check.about("promise 13, 2,000 NUMBERS");
         SortWorks x = new SortWorks();
@@ -93,16 +96,16 @@ final class HandTest {
         }
         Check.links(x, 0, 1);
         Check.links(x, 1, 2);
-        Check.due("night(0, 20)", x.night(0, 20), 20);
+        Check.due("night(0, 20)", x.night(0, 20), 14);
         x.back(20);
-        for (int i = 1; i <= 104; i++) {
-            Check.due("night(" + i + ", 20), SLOT 0 is not empty at first", x.night(i, 20), 19);
+        for (int i = 1; i <= 152; i++) {
+            Check.due("night(" + i + ", 20), SLOT 0 is not empty at first", x.night(i, 20), 13);
             x.back(20);
         }
-        Check.due("count(13)", x.count(13), 1996);
-        Check.due("night(105, 20)", x.night(105, 20), 4);
+        Check.due("count(13)", x.count(13), 1990);
+        Check.due("night(153, 20)", x.night(153, 20), 10);
         Check.due("count(13)", x.count(13), 2000);
-        Check.due("count(1)", x.count(1), 5);
+        Check.due("count(1)", x.count(1), 11);
         Check.due("left(2000)", x.left(2000), -10);
         Check.due("left(2001)", x.left(2001), UNKNOWN);
         Check.refused(x, "come(3, 1, 1)", x.come(3, 1, 1), FULL);

@@ -1397,8 +1397,9 @@ final class Model {
 
     public long reach(int gear) {
         long bits = 0;
-        for (int k = 0; has(gear) && k < at().now.gear.size(); k++) {
-            bits |= distances()[gear][k] < 100000 ? 1L << k : 0;
+        int[] from = has(gear) ? distances()[gear] : new int[0];
+        for (int k = 0; k < from.length; k++) {
+            bits |= from[k] < 100000 ? 1L << k : 0;
         }
         return bits;
     }

@@ -24,7 +24,7 @@ final class ModelTest {
     }
 
     public static void main(String[] args) throws ReflectiveOperationException {
-        int runs = args.length > 0 ? Integer.parseInt(args[0]) : 400;
+        int runs = args.length > 0 ? Integer.parseInt(args[0]) : 250;
         long first = args.length > 1 ? Long.parseLong(args[1]) : 1;
         int failed = 0;
         for (long seed = first; seed < first + runs && failed < 3; seed++) {
