@@ -820,7 +820,7 @@ public final class SortWorks {
         }
 
         boolean isTaker() {
-            return kind >= BELT && kind <= HOLD;
+            return isTakerKind(kind);
         }
 
         boolean isBelt() {
@@ -854,6 +854,11 @@ public final class SortWorks {
 
         boolean isJammed() {
             return wait >= JAM_WAIT && isTaker();
+        }
+
+        /** Whether this is a HOLD that may not give what it has. */
+        boolean isHeld() {
+            return kind == HOLD && releases == 0;
         }
 
         boolean isFreeAtStart() {
@@ -1173,7 +1178,6 @@ public final class SortWorks {
             p.target = NONE;
             p.wayLength = 0;
             p.labelLength = NOTHING;
-            p.moved = false;
             came++;
             inside++;
             setDown(p, to);
@@ -1404,7 +1408,6 @@ public final class SortWorks {
             letters = typedLetters;
             length = typedLength;
             at = 0;
-            rules.count = 0;
             rules.textLength = 0;
             for (int k = 0; k < RULES_MOST; k++) {
                 if (!takeRule(k)) {
@@ -1517,7 +1520,6 @@ public final class SortWorks {
 
         /** NO_FAULT or the FAULT; without one either bad is true or all else is as it was read. */
         int read(Parcel p) {
-            bad = false;
             if (p.labelLength == NOTHING) {
                 return NULL;
             }
@@ -1535,7 +1537,6 @@ public final class SortWorks {
         }
 
         private int readFormA(Parcel p) {
-            int sum = 0;
             for (int i = 1; i < FORM_A_BYTES; i++) {
                 if (i >= p.labelLength) {
                     return INDEX;
@@ -1545,9 +1546,9 @@ public final class SortWorks {
                     bad = true;
                     return NO_FAULT;
                 }
-                sum += i % 2 == 1 && i < FORM_A_BYTES - 1 ? 3 * digits[i] : digits[i];
             }
-            bad = sum % 10 != 0;
+            int sum = 3 * (digits[1] + digits[3] + digits[5]) + digits[2] + digits[4] + digits[6];
+            bad = (sum + digits[7]) % 10 != 0;
             place = 10 * digits[1] + digits[2];
             weight = 100 * digits[3] + 10 * digits[4] + digits[5];
             size = digits[6];
@@ -1690,8 +1691,7 @@ public final class SortWorks {
         }
 
         private boolean isReadyToGive(Gear g) {
-            return g.isTaker() && g.kind != CHUTE && isInStep(g) && now.inLastSlot(g) != null
-                    && (g.kind != HOLD || g.releases > 0);
+            return g.isTaker() && g.kind != CHUTE && isInStep(g) && now.inLastSlot(g) != null && !g.isHeld();
         }
 
         /** Whether a MERGE would rather have giver k than the one, of a lesser number, that it has chosen so far. */
@@ -1854,13 +1854,10 @@ public final class SortWorks {
                 g.wait = 0;
                 return;
             }
-            boolean isGiven = isReadable && (g.kind != HOLD || g.releases > 0);
-            if (!isGiven || !(g.kind == CHUTE ? giveOut(number, g, p) : giveOn(number, g, p))) {
-                g.wait++;
-                return;
-            }
-            g.wait = 0;
-            if (g.kind == HOLD) {
+            boolean isGiven = isReadable && !g.isHeld();
+            boolean isTaken = isGiven && (g.kind == CHUTE ? giveOut(number, g, p) : giveOn(number, g, p));
+            g.wait = isTaken ? 0 : g.wait + 1;
+            if (isTaken && g.kind == HOLD) {
                 g.releases--;
             }
         }
@@ -1918,10 +1915,8 @@ public final class SortWorks {
                     addTrace(ASKED_DIVERT);
                     return divertTakes(g, g.wantedSide(target));
                 case CHUTE:
-                    addTrace(ASKED_CHUTE);
-                    return g.isChuteFor(target, to) && g.isFreeAtStart();
                 case HOLD:
-                    addTrace(ASKED_HOLD);
+                    addTrace(g.kind == CHUTE ? ASKED_CHUTE : ASKED_HOLD);
                     return g.isChuteFor(target, to) && g.isFreeAtStart();
                 default:
                     addTrace(ASKED_BELT);

@@ -15,6 +15,7 @@ final class BuildTest {
         refit();
         refitKeepsWhatNamesIt();
         copy();
+        copyPlans();
         copyOfItself();
         letter();
         load();
@@ -226,6 +227,11 @@ final class BuildTest {
         Check.due("told(1, 4)", x.told(1, 4), 0);
         Check.due("told(1, 8)", x.told(1, 8), 0);
         Check.due("linkOf(1, 1)", x.linkOf(1, 1), 3);
+        x.refit(2, 6);
+        x.aim(2, 1, 4, true);
+        x.aim(2, 2, 5, true);
+        Check.due("refit(2, 5)", x.refit(2, 5), 6);
+        Check.due("aim(2, 1, 4, false)", x.aim(2, 1, 4, false), 0);
         x.rank(2, 9);
         x.aim(2, 1, 4, true);
         x.turn(2, 1);
@@ -236,6 +242,7 @@ final class BuildTest {
         Check.due("told(2, 2)", x.told(2, 2), 0);
         Check.due("told(2, 11)", x.told(2, 11), 3);
         Check.due("aim(2, 1, 4, true)", x.aim(2, 1, 4, true), 1);
+        Check.due("aim(2, 2, 5, false)", x.aim(2, 2, 5, false), 0);
     }
 
     /** A MERGE has taken from GEAR 0; a HOLD has RELEASES; a PANEL has a DIAL: all of that is gone by refit(). */
@@ -258,6 +265,7 @@ final class BuildTest {
         Check.due("refit(0, 3)", x.refit(0, 3), 0);
         Check.due("told(0, 6), WENT", x.told(0, 6), 0);
         Check.due("told(1, 13) stays", x.told(1, 13), 1);
+        Check.links(x, 3, 4);
         x.step();
         Check.due("refit(1, 2)", x.refit(1, 2), 2);
         Check.due("told(1, 13) of its own", x.told(1, 13), 0);
@@ -268,8 +276,9 @@ final class BuildTest {
         x.step();
         Check.due("told(3, 7)", x.told(3, 7), 1);
         Check.due("told(3, 4)", x.told(3, 4), 3);
+        Check.due("told(3, 14), of the STEP before", x.told(3, 14), 1);
         Check.due("refit(3, 10)", x.refit(3, 10), 10);
-        Check.due("told(3, 14)", x.told(3, 14), 0);
+        Check.due("told(3, 14), its DIAL", x.told(3, 14), 0);
         Check.due("told(3, 7)", x.told(3, 7), 0);
         Check.due("told(3, 4)", x.told(3, 4), 0);
         Check.steps(x, 9);
@@ -302,6 +311,9 @@ final class BuildTest {
         Check.refused(x, "copy(3)", x.copy(3), UNKNOWN);
         Check.refused(x, "copy(-1)", x.copy(-1), UNKNOWN);
         Check.refused(x, "copy(1)", x.copy(1), STATE);
+        x.works(1);
+        x.gear(0, 1);
+        Check.refused(x, "copy(0) into one GEAR", x.copy(0), STATE);
         x.works(2);
         x.plan(1, 5, 0, 0, 0);
         x.plan(1, 6, 0, 0, 0);
@@ -335,6 +347,32 @@ final class BuildTest {
         Check.due("linkOf(0, 0) of the first, whose ROWS are its own", x.linkOf(0, 0), 3);
         Check.due("step(), in which both PLANS are done", x.step(), 1);
         Check.due("told(1, 2)", x.told(1, 2), 0);
+    }
+
+    /** PLANS that were copied are done as they are, each of its own length, and are not those of the other WORKS. */
+    private static void copyPlans() {
+        Check.about("promise 9, PLANS");
+        SortWorks x = new SortWorks();
+        x.gear(9, 0);
+        x.gear(8, 1);
+        x.plan(4, 1, 0, 0, 7);
+        x.plan(3, 1, 2, 1, 5);
+        x.plan(4, 2, 2, 1, 6);
+        x.works(1);
+        x.plan(1, 1, 0, 0, 0);
+        x.plan(4, 1, 2, 1, 4);
+        x.copy(0);
+        Check.due("step()", x.step(), 1);
+        Check.due("told(0, 2)", x.told(0, 2), 1);
+        Check.due("told(1, 10)", x.told(1, 10), 0);
+        Check.due("count(6)", x.count(6), 1);
+        Check.due("finding(0, 4)", x.finding(0, 4), 1);
+        Check.due("plan()", x.plan(4, 2, 0, 0, 0), 3);
+        x.step();
+        Check.due("told(1, 10)", x.told(1, 10), 6);
+        Check.due("told(0, 2)", x.told(0, 2), 0);
+        x.works(0);
+        Check.due("count(11)", x.count(11), 3);
     }
 
     private static void copyOfItself() {

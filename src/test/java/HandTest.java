@@ -186,6 +186,22 @@ final class HandTest {
         bytes(x, 2, 'A', '0', '7', '0', '0', '1', '0', '0');
         Check.due("tag(2, 0, 99)", x.tag(2, 0, 99), 8);
         bytes(x, 2, 'A', '9', '9', '0', '0', '1', '0', '1');
+        tagged(100, 0, "A001000", '7');
+        tagged(99, 0, "A000990", '4');
+        tagged(999, 9, "A009999", '8');
+        tagged(500, 0, "A005000", '5');
+        tagged(800, 3, "A008003", '3');
+    }
+
+    private static void tagged(int weight, int size, String want, int check) {
+        SortWorks x = new SortWorks();
+        x.gear(0, 1);
+        x.come(0, weight, size);
+        x.tag(1, 0, 0);
+        for (int i = 0; i < 7; i++) {
+            Check.due("byteOf(1, " + i + ") of WEIGHT " + weight, x.byteOf(1, i), want.charAt(i));
+        }
+        Check.due("byteOf(1, 7) of WEIGHT " + weight, x.byteOf(1, 7), check);
     }
 
     private static void tagFormB() {
@@ -199,6 +215,14 @@ final class HandTest {
         bytes(x, 1, 'B', 99, 3, 231, 9, 52);
         Check.due("parcel(1, 6)", x.parcel(1, 6), 6);
         Check.due("parcel(1, 4), that stays", x.parcel(1, 4), NONE);
+        int[][] weights = {{255, 0, 255}, {256, 1, 0}, {511, 1, 255}, {512, 2, 0}, {767, 2, 255}, {768, 3, 0}};
+        for (int[] row : weights) {
+            SortWorks y = new SortWorks();
+            y.gear(0, 1);
+            y.come(0, row[0], 0);
+            y.tag(1, 1, 0);
+            bytes(y, 1, 'B', 0, row[1], row[2], 0, (5 * row[1] + 3 * row[2]) % 97);
+        }
     }
 
     private static void tagRefused() {

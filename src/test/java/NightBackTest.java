@@ -13,6 +13,10 @@ final class NightBackTest {
         undone();
         undoneByWorks();
         outIsInsideAgain();
+        outSinceIsUndone();
+        thirtyInside();
+        labelsGoBack();
+        logsGoBack();
         keptThirty();
         groupsStay();
         Check.end();
@@ -353,6 +357,121 @@ final class NightBackTest {
         Check.due("left(2)", x.left(2), NONE);
         Check.due("left(1)", x.left(1), -12);
         Check.due("count(1)", x.count(1), 1);
+    }
+
+    /** SCANNER 1 to CHUTE 2 and DOOR 0, in each WORKS: left() of DOOR 0 is 0, 1000, 2000. */
+    private static void outSinceIsUndone() {
+        Check.about("promise 27, what came and went since");
+        SortWorks x = new SortWorks();
+        for (int w = 0; w < 3; w++) {
+            x.works(w);
+            x.gear(9, 0);
+            x.gear(3, 1);
+            x.gear(7, 1);
+            Check.links(x, 1, 2);
+            Check.links(x, 2, 0);
+            Check.load(x, ":2;");
+            x.door(0, true);
+            x.step();
+        }
+        for (int w = 0; w < 3; w++) {
+            x.works(w);
+            x.come(1, 1, 1);
+            x.tag(w + 1, 0, 1);
+            Check.steps(x, 2);
+        }
+        for (int w = 0; w < 3; w++) {
+            Check.due("left(" + (w + 1) + ")", x.left(w + 1), 1000 * w);
+        }
+        for (int w = 0; w < 3; w++) {
+            x.works(w);
+            Check.due("back(3)", x.back(3), 0);
+            for (int p = 1; p <= 3; p++) {
+                Check.due("left(" + p + ")", x.left(p), p <= w + 1 ? NONE : 1000 * (p - 1));
+            }
+            Check.due("count(3)", x.count(3), 0);
+        }
+    }
+
+    private static void thirtyInside() {
+        Check.about("promise 27, 30 PARCELS");
+        SortWorks x = new SortWorks();
+        for (int g = 0; g < 30; g++) {
+            x.gear(0, 2);
+            x.come(g, g + 1, g % 10);
+        }
+        String ahead = all(x);
+        x.step();
+        String later = all(x);
+        for (int p = 1; p <= 30; p++) {
+            Check.due("parcel(" + p + ", 1)", x.parcel(p, 1), 1);
+            x.label(p, p % 13);
+        }
+        x.back(1);
+        same("back(1)", all(x), ahead);
+        for (int p = 1; p <= 30; p++) {
+            Check.due("left(" + p + ")", x.left(p), -10);
+        }
+        x.step();
+        same("step()", all(x), later);
+        x.back(1);
+        x.carry(30, 28);
+        same("carry() that is refused", all(x), ahead);
+        x.step();
+        x.step();
+        Check.due("told(29, 3), the last PARCEL moves and waits as others do", x.told(29, 3), 1);
+        Check.due("told(0, 3)", x.told(0, 3), 1);
+    }
+
+    private static void labelsGoBack() {
+        Check.about("promise 27, LABELS");
+        SortWorks x = new SortWorks();
+        x.gear(0, 1);
+        x.come(0, 5, 5);
+        x.step();
+        x.label(1, 3);
+        x.put(1, 2, 9);
+        x.step();
+        x.put(1, 2, 8);
+        x.step();
+        x.tag(1, 0, 1);
+        x.back(1);
+        Check.due("parcel(1, 6)", x.parcel(1, 6), 3);
+        Check.due("byteOf(1, 2)", x.byteOf(1, 2), 8);
+        x.back(1);
+        Check.due("byteOf(1, 2)", x.byteOf(1, 2), 9);
+        x.label(1, 12);
+        x.back(1);
+        Check.due("parcel(1, 6)", x.parcel(1, 6), NONE);
+    }
+
+    /** FINDINGS and OUTS that newer ones pushed out are kept again when those are gone back behind. */
+    private static void logsGoBack() {
+        Check.about("promise 27, FINDINGS and OUTS");
+        SortWorks x = new SortWorks();
+        x.gear(3, 1);
+        x.gear(7, 1);
+        x.gear(9, 0);
+        x.gear(10, 0);
+        Check.links(x, 0, 1);
+        Check.links(x, 1, 2);
+        Check.load(x, ":1;");
+        x.door(2, true);
+        for (int p = 1; p <= 45; p++) {
+            x.come(0, 1, 1);
+            x.tag(p, p % 2, 1);
+            Check.steps(x, 2);
+        }
+        Check.due("out(29, 0)", x.out(29, 0), 16);
+        Check.due("finding(39, 0)", x.finding(39, 0), 51);
+        Check.due("back(30)", x.back(30), 60);
+        Check.due("out(0, 0)", x.out(0, 0), 30);
+        Check.due("out(29, 0)", x.out(29, 0), 1);
+        Check.due("out(29, 2)", x.out(29, 2), 2);
+        Check.due("finding(0, 0)", x.finding(0, 0), 60);
+        Check.due("finding(39, 0)", x.finding(39, 0), 21);
+        Check.due("count(6)", x.count(6), 60);
+        Check.due("told(3, 7)", x.told(3, 7), 60);
     }
 
     private static void keptThirty() {

@@ -275,6 +275,16 @@ final class RulesTest {
         }
         Check.due("told(0, 7)", x.told(0, 7), 3);
         Check.due("rule(3, 2)", x.rule(3, 2), 1);
+        Check.about("tests of RULES that were loaded before");
+        SortWorks y = new SortWorks();
+        y.gear(3, 1);
+        Check.load(y, "D=9,D=9,D=9,D=9:1;D=9,D=9,D=9,D=9:2;");
+        Check.load(y, "D=1:3;D=1,W=1:4;");
+        y.come(0, 1, 1);
+        y.tag(1, 0, 1);
+        y.step();
+        Check.due("parcel(1, 4)", y.parcel(1, 4), 3);
+        Check.due("rule(1, 1)", y.rule(1, 1), 2);
     }
 
     /** CHUTE 1 of LENGTH 3 and HOLD 2 fill up; DOORS 3, 4, 5. */
@@ -329,11 +339,26 @@ final class RulesTest {
         Check.links(h, 2, -1, 39, 5);
         h.door(5, true);
         Check.due("0 / 1", read(h), 6);
+        Check.about("QUOTIENT by DOOR 0");
+        SortWorks d = new SortWorks();
+        d.gear(9, 0);
+        d.gear(3, 1);
+        d.gear(8, 1);
+        Check.links(d, 2, 0);
+        Check.load(d, "Q2=0:6;:9;");
+        d.door(0, true);
+        d.come(1, 1, 1);
+        d.tag(1, 1, 1);
+        d.step();
+        Check.due("parcel(1, 4)", d.parcel(1, 4), 6);
+        Check.due("finding(0, 2), just the LINK that lacks", d.finding(0, 2), 1);
+        Check.due("count(6)", d.count(6), 1);
     }
 
     private static void quotientFaults() {
-        String[] rules = {"Q40=1:1;:9;", "Q9999=1:1;:9;", "Q39=1:1;:9;", "Q0=1:1;:9;", "Q3=1:1;:9;", "Q1=1:1;:9;"};
-        int[] faults = {INDEX, INDEX, NULL, CAST, CAST, ZERO};
+        String[] rules = {"Q40=1:1;:9;", "Q9999=1:1;:9;", "Q39=1:1;:9;", "Q6=1:1;:9;", "Q0=1:1;:9;", "Q3=1:1;:9;",
+            "Q1=1:1;:9;", "Q2=1:1;:9;"};
+        int[] faults = {INDEX, INDEX, NULL, NULL, CAST, CAST, ZERO, ZERO};
         for (int i = 0; i < rules.length; i++) {
             Check.about("QUOTIENT, " + rules[i]);
             SortWorks x = loaded(rules[i]);

@@ -6,6 +6,7 @@ final class StepTest {
     public static void main(String[] args) {
         time();
         faultsAreFull();
+        faultsAreJustFull();
         belt();
         curve();
         orderOfGear();
@@ -13,6 +14,7 @@ final class StepTest {
         mergeByRank();
         mergeByLast();
         mergeAndHold();
+        mergeOfNumberZero();
         mergeIsFull();
         scanner();
         scannerFault();
@@ -106,6 +108,27 @@ final class StepTest {
         Check.due("count(5)", x.count(5), 0);
         Check.due("links(0, -2), FAULTS are counted on", x.links(0, -2), -15);
         Check.due("count(7)", x.count(7), 5040);
+    }
+
+    /** 125 STEPS of 40 FAULTS are 5,000 to the one. */
+    private static void faultsAreJustFull() {
+        Check.about("promise 25, 5,000 FAULTS");
+        SortWorks x = new SortWorks();
+        x.gear(0, 1);
+        for (int g = 1; g < 40; g++) {
+            x.gear(10, 0);
+        }
+        x.come(0, 1, 1);
+        for (int i = 0; i < 6; i++) {
+            x.night(0, 20);
+        }
+        Check.due("night(0, 20)", x.night(0, 20), 0);
+        Check.due("count(7)", x.count(7), 5000);
+        Check.due("count(5)", x.count(5), 125);
+        Check.refused(x, "step()", x.step(), FULL);
+        x.carry(1, 0);
+        Check.due("night(0, 1)", x.night(0, 1), 0);
+        Check.due("count(5)", x.count(5), 125);
     }
 
     private static void belt() {
@@ -331,6 +354,29 @@ final class StepTest {
         Check.due("told(4, 13), a CHUTE is never CHOSEN", x.told(4, 13), 4);
     }
 
+    /** MERGE 0 is led to by itself and by BELT 1; GEAR 0 may be what is followed, and what is CHOSEN. */
+    private static void mergeOfNumberZero() {
+        Check.about("MERGE 0");
+        SortWorks x = new SortWorks();
+        x.gear(2, 2);
+        x.gear(0, 1);
+        Check.links(x, 0, 0);
+        Check.links(x, 1, 0);
+        x.come(1, 1, 1);
+        x.step();
+        Check.due("told(0, 13)", x.told(0, 13), 2);
+        x.step();
+        x.step();
+        Check.due("told(0, 13), it gives to itself", x.told(0, 13), 1);
+        Check.due("slot(0, 0)", x.slot(0, 0), 1);
+        x.come(1, 1, 1);
+        x.step();
+        x.step();
+        Check.due("told(0, 13), BELT 1 is above LAST", x.told(0, 13), 2);
+        Check.due("slot(1, 0)", x.slot(1, 0), 0);
+        Check.due("told(0, 3)", x.told(0, 3), 1);
+    }
+
     private static void mergeIsFull() {
         Check.about("MERGE, not empty");
         SortWorks x = four(0, 0, 0, 0);
@@ -515,6 +561,19 @@ final class StepTest {
         told(x, 1, 2, 2);
         x.step();
         Check.due("told(1, 2), TARGET UNREAD", x.told(1, 2), 0);
+
+        Check.about("CROSS, TARGETS 0 and 39");
+        SortWorks y = diverting(6, 1);
+        Check.load(y, "D=0:0;D=1:39;");
+        y.aim(1, 2, 0, true);
+        y.aim(1, 1, 39, true);
+        send(y, 0);
+        y.step();
+        told(y, 1, 2, 2);
+        y.carry(1, 2);
+        send(y, 1);
+        y.step();
+        told(y, 1, 2, 1);
     }
 
     private static void divertTurnsWhenEmpty() {
@@ -830,7 +889,7 @@ final class StepTest {
         Check.about("PLANS, FAULTS");
         int[][] rows = {
             // n, op, a, b, the FAULT
-            {1, 0, 0, 0, INDEX}, {4, 3, 77, 0, INDEX}, {4, -1, 0, 0, INDEX}, {2, 0, 0, 0, INDEX}, {2, 9, 0, 0, INDEX},
+            {1, 0, 0, 0, INDEX}, {2, 0, 39, 0, INDEX}, {2, 1, 0, 0, INDEX}, {1, 0, 39, 0, INDEX}, {4, 3, 77, 0, INDEX}, {4, -1, 0, 0, INDEX}, {2, 0, 0, 0, INDEX}, {2, 9, 0, 0, INDEX},
             {3, 0, 40, 0, INDEX}, {4, 0, -1, 0, INDEX}, {4, 0, 39, 0, NULL}, {3, 1, 4, 0, NULL}, {3, 0, 1, 0, CAST},
             {3, 0, 0, 0, INDEX}, {4, 0, 2, 0, CAST}, {4, 1, 0, 9, CAST}, {3, 1, 2, 0, CAST}, {3, 1, 1, 0, INDEX},
             {4, 1, 1, 2, INDEX}, {4, 2, 3, 21, CAST}, {4, 2, 2, 21, INDEX}, {4, 2, 2, -1, INDEX}, {3, 2, 2, 0, INDEX},

@@ -12,6 +12,7 @@ final class ToldTest {
         parcel();
         wayAndBytes();
         left();
+        nothingOfTheOneBefore();
         outs();
         audit();
         count();
@@ -206,6 +207,35 @@ final class ToldTest {
         Check.due("left(0)", x.left(0), UNKNOWN);
         Check.due("left(-1)", x.left(-1), UNKNOWN);
         Check.due("left(MAX)", x.left(Integer.MAX_VALUE), UNKNOWN);
+    }
+
+    /** What comes where another one was OUT has nothing of that one. */
+    private static void nothingOfTheOneBefore() {
+        Check.about("promises 13 and 32 to 34, a PARCEL behind one that is OUT");
+        SortWorks x = new SortWorks();
+        x.gear(3, 1);
+        x.gear(7, 1);
+        x.gear(9, 0);
+        Check.links(x, 0, 1);
+        Check.links(x, 1, 2);
+        Check.load(x, ":1;");
+        x.door(2, true);
+        x.come(0, 5, 5);
+        x.tag(1, 0, 1);
+        Check.steps(x, 2);
+        Check.due("left(1)", x.left(1), 2);
+        Check.due("come(0, 6, 6)", x.come(0, 6, 6), 2);
+        int[] want = {0, 0, 6, 6, NONE, 1, NONE, 0};
+        for (int what = 0; what < want.length; what++) {
+            Check.due("parcel(2, " + what + ")", x.parcel(2, what), want[what]);
+        }
+        Check.due("way(2, 0)", x.way(2, 0), 0);
+        Check.due("way(2, 1)", x.way(2, 1), NONE);
+        Check.due("byteOf(2, 0)", x.byteOf(2, 0), NONE);
+        x.label(2, 12);
+        for (int i = 0; i < 12; i++) {
+            Check.due("byteOf(2, " + i + ")", x.byteOf(2, i), 0);
+        }
     }
 
     /** 32 PARCELS go by DOORS 39 and 0 in turn, each in the second STEP behind its coming. */
