@@ -52,6 +52,17 @@ final class Check {
         }
     }
 
+    /** SCANNER 0, CHUTE 1 and DOOR 2, which is OPEN: what can be read is OUT in the second STEP behind its coming. */
+    static void buildSorter(SortWorks x) {
+        x.gear(3, 1);
+        x.gear(7, 1);
+        x.gear(9, 0);
+        links(x, 0, 1);
+        links(x, 1, 2);
+        load(x, ":1;");
+        x.door(2, true);
+    }
+
     static void steps(SortWorks x, int n) {
         for (int i = 0; i < n; i++) {
             x.step();

@@ -15,6 +15,8 @@ final class NightBackTest {
         outIsInsideAgain();
         outSinceIsUndone();
         thirtyInside();
+        thirtiethGoesOut();
+        handsGoBack();
         labelsGoBack();
         logsGoBack();
         keptThirty();
@@ -325,13 +327,7 @@ final class NightBackTest {
         Check.about("promises 27 and 35, what was OUT");
         SortWorks x = new SortWorks();
         x.works(2);
-        x.gear(3, 1);
-        x.gear(7, 1);
-        x.gear(9, 0);
-        Check.links(x, 0, 1);
-        Check.links(x, 1, 2);
-        Check.load(x, ":1;");
-        x.door(2, true);
+        Check.buildSorter(x);
         x.come(0, 1, 1);
         x.tag(1, 0, 1);
         Check.steps(x, 2);
@@ -423,6 +419,52 @@ final class NightBackTest {
         Check.due("told(0, 3)", x.told(0, 3), 1);
     }
 
+    private static void thirtiethGoesOut() {
+        Check.about("promise 27, the thirtieth INSIDE");
+        SortWorks x = new SortWorks();
+        Check.buildSorter(x);
+        for (int g = 3; g < 32; g++) {
+            x.gear(0, 1);
+        }
+        for (int g = 3; g < 32; g++) {
+            x.come(g, 1, 1);
+        }
+        Check.due("come(0, 1, 1)", x.come(0, 1, 1), 30);
+        x.tag(30, 0, 1);
+        Check.steps(x, 2);
+        Check.due("left(30)", x.left(30), 2);
+        x.back(1);
+        Check.due("left(30)", x.left(30), -10);
+        Check.due("slot(1, 0)", x.slot(1, 0), 30);
+        Check.due("count(1)", x.count(1), 30);
+    }
+
+    private static void handsGoBack() {
+        Check.about("promise 27, what was done by hand");
+        SortWorks x = new SortWorks();
+        x.gear(9, 0);
+        x.gear(6, 1);
+        x.gear(8, 1);
+        x.step();
+        x.door(0, true);
+        x.turn(1, 2);
+        x.release(2, 9);
+        x.step();
+        x.door(0, false);
+        x.turn(1, 1);
+        x.release(2, 3);
+        Check.due("back(1)", x.back(1), 1);
+        Check.due("told(0, 2)", x.told(0, 2), 1);
+        Check.due("told(1, 2)", x.told(1, 2), 2);
+        Check.due("told(2, 10)", x.told(2, 10), 9);
+        Check.due("told(0, 4), its LAMP", x.told(0, 4), 0);
+        Check.due("back(1)", x.back(1), 0);
+        Check.due("told(0, 2)", x.told(0, 2), 0);
+        Check.due("told(1, 2)", x.told(1, 2), 0);
+        Check.due("told(2, 10)", x.told(2, 10), 0);
+        Check.due("told(0, 8), ACTS", x.told(0, 8), 0);
+    }
+
     private static void labelsGoBack() {
         Check.about("promise 27, LABELS");
         SortWorks x = new SortWorks();
@@ -449,14 +491,8 @@ final class NightBackTest {
     private static void logsGoBack() {
         Check.about("promise 27, FINDINGS and OUTS");
         SortWorks x = new SortWorks();
-        x.gear(3, 1);
-        x.gear(7, 1);
-        x.gear(9, 0);
+        Check.buildSorter(x);
         x.gear(10, 0);
-        Check.links(x, 0, 1);
-        Check.links(x, 1, 2);
-        Check.load(x, ":1;");
-        x.door(2, true);
         for (int p = 1; p <= 45; p++) {
             x.come(0, 1, 1);
             x.tag(p, p % 2, 1);

@@ -18,6 +18,7 @@ final class ToldTest {
         count();
         digest();
         digestOfParcels();
+        fullHouse();
         Check.end();
     }
 
@@ -85,13 +86,7 @@ final class ToldTest {
     private static void toldOfDoors() {
         Check.about("promise 29, DOORS");
         SortWorks x = new SortWorks();
-        x.gear(3, 1);
-        x.gear(7, 1);
-        x.gear(9, 0);
-        Check.links(x, 0, 1);
-        Check.links(x, 1, 2);
-        Check.load(x, ":1;");
-        x.door(2, true);
+        Check.buildSorter(x);
         for (int p = 1; p <= 3; p++) {
             x.come(0, 1, 1);
             x.tag(p, 1, 1);
@@ -213,13 +208,7 @@ final class ToldTest {
     private static void nothingOfTheOneBefore() {
         Check.about("promises 13 and 32 to 34, a PARCEL behind one that is OUT");
         SortWorks x = new SortWorks();
-        x.gear(3, 1);
-        x.gear(7, 1);
-        x.gear(9, 0);
-        Check.links(x, 0, 1);
-        Check.links(x, 1, 2);
-        Check.load(x, ":1;");
-        x.door(2, true);
+        Check.buildSorter(x);
         x.come(0, 5, 5);
         x.tag(1, 0, 1);
         Check.steps(x, 2);
@@ -325,6 +314,33 @@ final class ToldTest {
         for (int what = 0; what < want.length; what++) {
             Check.due("count(" + what + ")", x.count(what), want[what]);
         }
+    }
+
+    /** All that goes through GEAR or PLANS, where there are as many as there may be. */
+    private static void fullHouse() {
+        Check.about("40 GEAR and 16 PLANS");
+        SortWorks x = new SortWorks();
+        for (int g = 0; g < 40; g++) {
+            x.gear(0, 1);
+        }
+        for (int k = 0; k < 16; k++) {
+            x.plan(4, 1, 9, 0, 0);
+        }
+        x.come(39, 1, 1);
+        Check.steps(x, 8);
+        Check.due("count(6)", x.count(6), 24);
+        Check.due("finding(8, 4)", x.finding(8, 4), 15);
+        Check.due("jam(0)", x.jam(0), 39);
+        Check.due("jam(1)", x.jam(1), NONE);
+        Check.due("audit()", x.audit(), NONE);
+        Check.due("clear(39)", x.clear(39), -4);
+        Check.due("reach(39)", x.reach(39), 0);
+        Check.due("back(8)", x.back(8), 0);
+        Check.due("told(39, 3)", x.told(39, 3), 0);
+        x.works(1);
+        Check.due("copy(0)", x.copy(0), 40);
+        Check.due("step()", x.step(), 1);
+        Check.due("count(6)", x.count(6), 16);
     }
 
     private static long mix(long d, long... all) {
