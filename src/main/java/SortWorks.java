@@ -24,8 +24,9 @@ public final class SortWorks {
     private static final int BODIES_MOST = 3;
     private static final int ASKED_BELT = 20, ASKED_MERGE = 21, ASKED_DIVERT = 22, ASKED_CHUTE = 23, ASKED_HOLD = 24;
 
-    private static final int WORKS_MOST = 3, GEAR_MOST = 40, SLOTS_MOST = 8, LINKS_MOST = 3, GROUPS_MOST = 4,
-            GROUP_PLACES_MOST = 8, RELEASES_MOST = 20, RANK_MOST = 9, PLANS_MOST = 16, PLAN_NUMBERS = 4, PLAN_TIME_MOST = 9999;
+    private static final int WORKS_MOST = 3, GEAR_MOST = 40, SLOTS_MOST = 8, SIDES_MOST = 3, LINKS_MOST = 3,
+            GROUPS_MOST = 4, GROUP_PLACES_MOST = 8, RELEASES_MOST = 20, RANK_MOST = 9, PLANS_MOST = 16,
+            PLAN_NUMBERS = 4, PLAN_TIME_MOST = 9999;
     private static final int NUMBERS_MOST = 2000, INSIDE_MOST = 30, WEIGHT_MOST = 999, SIZE_MOST = 9, LABEL_MOST = 12,
             PLACE_MOST = 99, WAY_MOST = 16;
     private static final int LETTERS_MOST = 200, RULES_MOST = 12, TESTS_MOST = 4, DIGITS_MOST = 4;
@@ -105,10 +106,8 @@ public final class SortWorks {
         if (n < NOTHING) {
             return refuse(SIZE);
         }
-        g.links = n == NOTHING ? null : new int[n];
-        if (g.links != null) {
-            Arrays.fill(g.links, NOBODY);
-        }
+        Arrays.fill(g.links, NOBODY);
+        g.linkCount = n;
         return built(n);
     }
 
@@ -120,10 +119,10 @@ public final class SortWorks {
         if (to < NOBODY || to >= GEAR_MOST) {
             return refuse(OUTSIDE);
         }
-        if (g.links == null) {
+        if (g.linkCount == NOTHING) {
             return refuse(NULL);
         }
-        if (k < 0 || k >= g.links.length) {
+        if (k < 0 || k >= g.linkCount) {
             return refuse(INDEX);
         }
         g.links[k] = to;
@@ -546,7 +545,7 @@ public final class SortWorks {
         if (g == null) {
             return UNKNOWN;
         }
-        if (g.links == null || k < 0 || k >= g.links.length) {
+        if (k < 0 || k >= g.linkCount) {
             return NONE;
         }
         return g.links[k] + 1;
@@ -749,15 +748,17 @@ public final class SortWorks {
         return i >= 0 && i < GROUPS_MOST;
     }
 
-    /** One GEAR: what is built of it (kind to setTwo), and behind that what is KEPT of it. */
+    /** One GEAR: what is built of it (kind to sets), and behind that what is KEPT of it. */
     private static final class Gear {
+        private static final int KEPT_NUMBERS = 11;
+
         int kind;
         int length;
         int rank;
-        /** null is NOTHING. */
-        int[] links;
-        long setOne;
-        long setTwo;
+        int linkCount = NOTHING;
+        final int[] links = new int[LINKS_MOST];
+        /** Target t is in the SET of SIDE k, if bit t of number k is 1; SIDE 0 has none. */
+        final long[] sets = new long[SIDES_MOST];
 
         int side;
         boolean open;
@@ -772,6 +773,7 @@ public final class SortWorks {
         int dial;
         /** The places of PARCELS in their State; 0 is empty. */
         final int[] slots = new int[SLOTS_MOST];
+        private final int[] kept = new int[KEPT_MOST * KEPT_NUMBERS];
 
         /** What a MERGE CHOSE; it is made anew in each STEP, so it is not KEPT. */
         int chosen = NOBODY;
@@ -779,8 +781,7 @@ public final class SortWorks {
         void begin(int newKind) {
             kind = newKind;
             rank = RANKS[newKind];
-            setOne = 0;
-            setTwo = 0;
+            Arrays.fill(sets, 0);
             side = 0;
             open = false;
             wait = 0;
@@ -798,25 +799,42 @@ public final class SortWorks {
             begin(other.kind);
             length = other.length;
             rank = other.rank;
-            links = other.links == null ? null : Arrays.copyOf(other.links, other.links.length);
-            setOne = other.setOne;
-            setTwo = other.setTwo;
+            linkCount = other.linkCount;
+            System.arraycopy(other.links, 0, links, 0, LINKS_MOST);
+            System.arraycopy(other.sets, 0, sets, 0, SIDES_MOST);
             open = other.open;
         }
 
-        void becomeAs(Gear other) {
-            side = other.side;
-            open = other.open;
-            wait = other.wait;
-            lamp = other.lamp;
-            came = other.came;
-            went = other.went;
-            findings = other.findings;
-            acts = other.acts;
-            releases = other.releases;
-            last = other.last;
-            dial = other.dial;
-            System.arraycopy(other.slots, 0, slots, 0, SLOTS_MOST);
+        void keep(int ringPlace) {
+            int at = KEPT_NUMBERS * ringPlace;
+            kept[at] = side;
+            kept[at + 1] = open ? 1 : 0;
+            kept[at + 2] = wait;
+            kept[at + 3] = lamp;
+            kept[at + 4] = came;
+            kept[at + 5] = went;
+            kept[at + 6] = findings;
+            kept[at + 7] = acts;
+            kept[at + 8] = releases;
+            kept[at + 9] = last;
+            kept[at + 10] = dial;
+        }
+
+        /** The SLOTS are empty then: the PARCELS know where they were. */
+        void goBack(int ringPlace) {
+            int at = KEPT_NUMBERS * ringPlace;
+            side = kept[at];
+            open = kept[at + 1] == 1;
+            wait = kept[at + 2];
+            lamp = kept[at + 3];
+            came = kept[at + 4];
+            went = kept[at + 5];
+            findings = kept[at + 6];
+            acts = kept[at + 7];
+            releases = kept[at + 8];
+            last = kept[at + 9];
+            dial = kept[at + 10];
+            Arrays.fill(slots, 0);
         }
 
         boolean isTaker() {
@@ -874,19 +892,12 @@ public final class SortWorks {
         }
 
         boolean aims(int which, int target) {
-            long set = which == 1 ? setOne : setTwo;
-            return target >= 0 && (set >>> target & 1) == 1;
+            return target >= 0 && (sets[which] >>> target & 1) == 1;
         }
 
         void aimAt(int which, int target, boolean in) {
             long bit = 1L << target;
-            long set = which == 1 ? setOne : setTwo;
-            long changed = in ? set | bit : set & ~bit;
-            if (which == 1) {
-                setOne = changed;
-            } else {
-                setTwo = changed;
-            }
+            sets[which] = in ? sets[which] | bit : sets[which] & ~bit;
         }
 
         int wantedSide(int target) {
@@ -941,7 +952,7 @@ public final class SortWorks {
                 case 14:
                     return dial;
                 case 15:
-                    return links == null ? NONE : links.length;
+                    return linkCount == NOTHING ? NONE : linkCount;
                 default:
                     return OUTSIDE;
             }
@@ -950,6 +961,8 @@ public final class SortWorks {
 
     /** One PARCEL INSIDE, or a place for one (number 0). */
     private static final class Parcel {
+        private static final int KEPT_WAY = 9, KEPT_LABEL = KEPT_WAY + WAY_MOST, KEPT_NUMBERS = KEPT_LABEL + LABEL_MOST;
+
         /** Where it stands among the PARCELS of its State, which SLOTS name it by. */
         final int place;
         int number;
@@ -964,23 +977,46 @@ public final class SortWorks {
         final int[] way = new int[WAY_MOST];
         int labelLength;
         final int[] label = new int[LABEL_MOST];
+        private final int[] kept = new int[KEPT_MOST * KEPT_NUMBERS];
 
         Parcel(int place) {
             this.place = place;
         }
 
-        void becomeAs(Parcel other) {
-            number = other.number;
-            weight = other.weight;
-            size = other.size;
-            target = other.target;
-            gear = other.gear;
-            slot = other.slot;
-            scanned = other.scanned;
-            wayLength = other.wayLength;
-            System.arraycopy(other.way, 0, way, 0, WAY_MOST);
-            labelLength = other.labelLength;
-            System.arraycopy(other.label, 0, label, 0, LABEL_MOST);
+        void keep(int ringPlace) {
+            int at = KEPT_NUMBERS * ringPlace;
+            kept[at] = number;
+            if (number == 0) {
+                return;
+            }
+            kept[at + 1] = weight;
+            kept[at + 2] = size;
+            kept[at + 3] = target;
+            kept[at + 4] = gear;
+            kept[at + 5] = slot;
+            kept[at + 6] = scanned ? 1 : 0;
+            kept[at + 7] = wayLength;
+            kept[at + 8] = labelLength;
+            System.arraycopy(way, 0, kept, at + KEPT_WAY, WAY_MOST);
+            System.arraycopy(label, 0, kept, at + KEPT_LABEL, LABEL_MOST);
+        }
+
+        void goBack(int ringPlace) {
+            int at = KEPT_NUMBERS * ringPlace;
+            number = kept[at];
+            if (number == 0) {
+                return;
+            }
+            weight = kept[at + 1];
+            size = kept[at + 2];
+            target = kept[at + 3];
+            gear = kept[at + 4];
+            slot = kept[at + 5];
+            scanned = kept[at + 6] == 1;
+            wayLength = kept[at + 7];
+            labelLength = kept[at + 8];
+            System.arraycopy(kept, at + KEPT_WAY, way, 0, WAY_MOST);
+            System.arraycopy(kept, at + KEPT_LABEL, label, 0, LABEL_MOST);
         }
 
         void write(int form, int to) {
@@ -1069,11 +1105,14 @@ public final class SortWorks {
         final int width;
         final int[] rows;
         int count;
+        private final int[] keptRows;
+        private final int[] keptCounts = new int[KEPT_MOST];
 
         Log(int most, int width) {
             this.most = most;
             this.width = width;
             this.rows = new int[most * ROW];
+            this.keptRows = new int[KEPT_MOST * most * ROW];
         }
 
         void add(int a, int b, int c, int d, int e) {
@@ -1093,54 +1132,82 @@ public final class SortWorks {
             return rows[(count - 1 - i) % most * ROW + what];
         }
 
-        void becomeAs(Log other) {
-            count = other.count;
-            System.arraycopy(other.rows, 0, rows, 0, rows.length);
+        void keep(int ringPlace) {
+            keptCounts[ringPlace] = count;
+            System.arraycopy(rows, 0, keptRows, ringPlace * rows.length, rows.length);
+        }
+
+        void goBack(int ringPlace) {
+            count = keptCounts[ringPlace];
+            System.arraycopy(keptRows, ringPlace * rows.length, rows, 0, rows.length);
         }
     }
 
-    /** All of a WORKS that is KEPT. */
+    /**
+     * All of a WORKS that is KEPT, as it is now. Each part has rows of its own, made with it, for how it was ahead of
+     * the latest STEPS: so neither a STEP nor going back makes anything.
+     */
     private static final class State {
+        private static final int KEPT_USED = 4, KEPT_NUMBERS = KEPT_USED + RULES_MOST;
+
         int time;
         int came;
         int inside;
-        /** How many NUMBERS the house had given when this was KEPT. */
+        /** How many NUMBERS the house had given ahead of the latest STEP, or of the one to which one went back. */
         int given;
         final Gear[] gear = new Gear[GEAR_MOST];
-        /** Place 0 is never used: in a SLOT it stands for no PARCEL. */
+        /** Place 0 is null: in a SLOT it stands for no PARCEL. */
         final Parcel[] parcels = new Parcel[INSIDE_MOST + 1];
         final int[] used = new int[RULES_MOST];
         final Log findings = new Log(FINDINGS_MOST, 5);
         final Log outs = new Log(OUTS_MOST, 4);
+        private final int[] kept = new int[KEPT_MOST * KEPT_NUMBERS];
 
         State() {
             for (int k = 0; k < GEAR_MOST; k++) {
                 gear[k] = new Gear();
             }
-            for (int place = 0; place <= INSIDE_MOST; place++) {
+            for (int place = 1; place <= INSIDE_MOST; place++) {
                 parcels[place] = new Parcel(place);
             }
         }
 
-        void becomeAs(State other, int gearCount) {
-            time = other.time;
-            came = other.came;
-            inside = other.inside;
-            given = other.given;
+        void keep(int ringPlace, int gearCount) {
+            int at = KEPT_NUMBERS * ringPlace;
+            kept[at] = time;
+            kept[at + 1] = came;
+            kept[at + 2] = inside;
+            kept[at + 3] = given;
+            System.arraycopy(used, 0, kept, at + KEPT_USED, RULES_MOST);
             for (int k = 0; k < gearCount; k++) {
-                gear[k].becomeAs(other.gear[k]);
+                gear[k].keep(ringPlace);
             }
             for (int place = 1; place <= INSIDE_MOST; place++) {
-                // The place of a PARCEL that is gone holds nothing that is worth copying.
-                if (other.parcels[place].number == 0) {
-                    parcels[place].number = 0;
-                } else {
-                    parcels[place].becomeAs(other.parcels[place]);
+                parcels[place].keep(ringPlace);
+            }
+            findings.keep(ringPlace);
+            outs.keep(ringPlace);
+        }
+
+        void goBack(int ringPlace, int gearCount) {
+            int at = KEPT_NUMBERS * ringPlace;
+            time = kept[at];
+            came = kept[at + 1];
+            inside = kept[at + 2];
+            given = kept[at + 3];
+            System.arraycopy(kept, at + KEPT_USED, used, 0, RULES_MOST);
+            for (int k = 0; k < gearCount; k++) {
+                gear[k].goBack(ringPlace);
+            }
+            for (int place = 1; place <= INSIDE_MOST; place++) {
+                Parcel p = parcels[place];
+                p.goBack(ringPlace);
+                if (p.number != 0) {
+                    gear[p.gear].slots[p.slot] = place;
                 }
             }
-            System.arraycopy(other.used, 0, used, 0, RULES_MOST);
-            findings.becomeAs(other.findings);
-            outs.becomeAs(other.outs);
+            findings.goBack(ringPlace);
+            outs.goBack(ringPlace);
         }
 
         Parcel find(int number) {
@@ -1222,8 +1289,7 @@ public final class SortWorks {
         final int[] groupSizes = {NOTHING, NOTHING, NOTHING, NOTHING};
         final int[] trace = new int[TRACE_MOST];
         int traced;
-        /** A ring: a State is made once, when it is first needed, and then used again. */
-        final State[] kept = new State[KEPT_MOST];
+        /** What is KEPT stands in a ring of KEPT_MOST places; this is the one that is filled next. */
         int keptNext;
         int keptCount;
         /** What measureWays() found for each GEAR. */
@@ -1256,11 +1322,8 @@ public final class SortWorks {
         }
 
         void keep(int given) {
-            if (kept[keptNext] == null) {
-                kept[keptNext] = new State();
-            }
             now.given = given;
-            kept[keptNext].becomeAs(now, gearCount);
+            now.keep(keptNext, gearCount);
             keptNext = (keptNext + 1) % KEPT_MOST;
             keptCount = Math.min(keptCount + 1, KEPT_MOST);
         }
@@ -1273,9 +1336,7 @@ public final class SortWorks {
             keptNext = Math.floorMod(keptNext - n, KEPT_MOST);
             keptCount -= n;
             traced = 0;
-            if (kept[keptNext] != null) {
-                now.becomeAs(kept[keptNext], gearCount);
-            }
+            now.goBack(keptNext, gearCount);
         }
 
         int freeHoldBut(int which) {
@@ -1289,10 +1350,10 @@ public final class SortWorks {
 
         /** The number of the GEAR to which LINK k leads, or the FAULT. */
         int follow(Gear g, int k) {
-            if (g.links == null) {
+            if (g.linkCount == NOTHING) {
                 return NULL;
             }
-            if (k < 0 || k >= g.links.length || g.links[k] == NOBODY) {
+            if (k < 0 || k >= g.linkCount || g.links[k] == NOBODY) {
                 return INDEX;
             }
             return g.links[k] < gearCount ? g.links[k] : NULL;
@@ -1746,7 +1807,7 @@ public final class SortWorks {
 
         private void setDial(int number, Gear g) {
             int sum = 0;
-            int links = g.links == null ? 1 : g.links.length;
+            int links = g.linkCount == NOTHING ? 1 : g.linkCount;
             for (int k = 0; k < links; k++) {
                 int to = works.follow(g, k);
                 if (to < 0) {
@@ -1836,8 +1897,7 @@ public final class SortWorks {
                 return CAST;
             }
             int doors = 0;
-            int links = g.links == null ? 0 : g.links.length;
-            for (int i = 0; i < links; i++) {
+            for (int i = 0; i < g.linkCount; i++) {
                 int to = works.follow(g, i);
                 if (to >= 0 && now.gear[to].kind == DOOR && now.gear[to].open) {
                     doors++;
@@ -1863,7 +1923,7 @@ public final class SortWorks {
         }
 
         private boolean giveOut(int number, Gear g, Parcel p) {
-            int links = g.links == null ? 1 : g.links.length;
+            int links = g.linkCount == NOTHING ? 1 : g.linkCount;
             for (int k = 0; k < links; k++) {
                 int to = works.follow(g, k);
                 int fault = to < 0 ? to : now.gear[to].kind != DOOR ? CAST : NO_FAULT;
