@@ -1,0 +1,75 @@
+import java.io.IOException;
+import java.nio.charset.StandardCharsets;
+import java.nio.file.Files;
+import java.nio.file.Path;
+import java.util.LinkedHashMap;
+import java.util.Map;
+import java.util.Set;
+import java.util.TreeSet;
+import java.util.regex.Matcher;
+import java.util.regex.Pattern;
+
+/** Which sentence of the document a test belongs to: in the document's own words, which must stand there. */
+final class Edge {
+    static final int UNKNOWN = -1, OUTSIDE = -2, STATE = -3, FULL = -4, UNREAD = -8, NONE = -9;
+    static final int NULL = -11, CAST = -12, INDEX = -13, STORE = -14, SIZE = -15;
+    static final String[] NO_GEAR = {"-1", "40", "MIN", "MAX"};
+
+    private static final Path DOCUMENT = Path.of("../shared/DOC.md");
+    private static final Map<String, String> SECTIONS = sections();
+    private static final Set<String> TESTED = new TreeSet<>();
+
+    private Edge() {
+    }
+
+    /** Sections are "What it is", "Terms" (what is ahead of its parts), "Part 1" to "Part 6", "Promise 1" to "Promise 48". */
+    private static Map<String, String> sections() {
+        String text;
+        try {
+            text = Files.readString(DOCUMENT, StandardCharsets.UTF_8);
+        } catch (IOException e) {
+            throw new IllegalStateException(DOCUMENT + " can't be read", e);
+        }
+        Map<String, String> all = new LinkedHashMap<>();
+        Matcher head = Pattern.compile("(?m)^(?:## (What it is|Terms|Promise \\d+)|## .*|==== (\\d) )").matcher(text);
+        String name = null;
+        int start = 0;
+        while (head.find()) {
+            put(all, name, text.substring(start, head.start()));
+            name = head.group(2) != null ? "Part " + head.group(2) : head.group(1);
+            start = head.end();
+        }
+        put(all, name, text.substring(start));
+        return all;
+    }
+
+    private static void put(Map<String, String> all, String name, String text) {
+        if (name != null) {
+            all.put(name, text);
+        }
+    }
+
+    /** What is asked from here on belongs to these words of that section. */
+    static void says(String section, String words) {
+        Check.about(section + ", \"" + words + "\"");
+        String text = SECTIONS.getOrDefault(section, "");
+        Check.due("these words stand in the document", text.contains(words) ? 1 : 0, 1);
+        TESTED.add(section);
+    }
+
+    static void promise(int number, String words) {
+        says("Promise " + number, words);
+    }
+
+    static void part(int number, String words) {
+        says("Part " + number, words);
+    }
+
+    /** Each of these sections has a test here. */
+    static void hasTested(String kind, int from, int to) {
+        for (int k = from; k <= to; k++) {
+            Check.about(kind + k);
+            Check.due("has a test of its edges", TESTED.contains(kind + k) ? 1 : 0, 1);
+        }
+    }
+}
