@@ -13,7 +13,11 @@ import java.util.regex.Pattern;
 final class Edge {
     static final int UNKNOWN = -1, OUTSIDE = -2, STATE = -3, FULL = -4, UNREAD = -8, NONE = -9;
     static final int NULL = -11, CAST = -12, INDEX = -13, STORE = -14, SIZE = -15;
-    static final String[] NO_GEAR = {"-1", "40", "MIN", "MAX"};
+    /** GEAR k is of KIND k, of LENGTH 2 where it is one of TAKERS. */
+    static final String ALL_KINDS = "gear(0,2) gear(1,2) gear(2,2) gear(3,2) gear(4,2) gear(5,2) gear(6,2) gear(7,2) gear(8,2)"
+            + " gear(9,0) gear(10,0)";
+    /** SCANNER 0 to CHUTE 1 to DOOR 2, which is OPEN: what can be read is OUT in the second STEP. */
+    static final String SORTER = "gear(3,1) gear(7,1) gear(9,0) row:0>1 row:1>2 load::1; door(2,true)";
 
     private static final Path DOCUMENT = Path.of("../shared/DOC.md");
     private static final Map<String, String> SECTIONS = sections();

@@ -3,9 +3,7 @@ final class EdgeBuildTest {
     private static final int UNKNOWN = Edge.UNKNOWN, OUTSIDE = Edge.OUTSIDE, STATE = Edge.STATE, FULL = Edge.FULL,
             NONE = Edge.NONE, NULL = Edge.NULL, CAST = Edge.CAST, INDEX = Edge.INDEX, SIZE = Edge.SIZE;
     private static final String FORTY = "gear(0,1)*40";
-    /** GEAR k is of KIND k, of LENGTH 2 where it is one of TAKERS. */
-    private static final String ALL_KINDS = "gear(0,2) gear(1,2) gear(2,2) gear(3,2) gear(4,2) gear(5,2) gear(6,2) gear(7,2)"
-            + " gear(8,2) gear(9,0) gear(10,0)";
+    private static final String ALL_KINDS = Edge.ALL_KINDS;
 
     /** Seven RULES typed with 194 letters. */
     private static final String RULES_OF_194 = "Q1=1,Q1=1,Q1=1,Q1=1:0001;".repeat(6)
@@ -287,9 +285,10 @@ final class EdgeBuildTest {
                 h.is("linkOf(0,0)", 2).is("linkOf(0,1)", 0).is("linkOf(0,2)", 40);
             }
         }
-        House worn = new House("gear(8,1) gear(2,1) gear(6,1) gear(10,0) gear(0,2)", "row:4>1", "row:3>4", "row:1>1");
+        House worn = new House("gear(8,1) gear(2,1) gear(6,1) gear(10,0) gear(0,2)", "row:4>1", "row:3>1", "row:1>1");
         worn.then("release(0,20) turn(2,2) aim(2,1,39,true) aim(2,2,0,true) come(4,1,1) step()*3 links(3,-1) step()");
-        worn.isTold(1, 13, 5).isTold(0, 10, 20).isTold(2, 2, 2).isTold(3, 4, 3).isTold(1, 3, 2).isTold(1, 5, 1);
+        worn.isTold(1, 13, 5).isTold(0, 10, 20).isTold(2, 2, 2).isTold(3, 4, 3).isTold(3, 14, 1).isTold(1, 3, 2)
+                .isTold(1, 5, 1);
         worn.then("carry(1,4)");
         for (int gear = 0; gear < 4; gear++) {
             worn.does("refit(" + gear + "," + new int[] {8, 2, 6, 10}[gear] + ")", new int[] {8, 2, 6, 10}[gear]);
@@ -345,6 +344,9 @@ final class EdgeBuildTest {
         used.tells("rule(0,2)", 1).then("works(1) load::1;:2;:3; plan(1,1,0,0,0)").does("copy(0)", 1);
         used.tells("rule(0,2)", 0).tells("unused(0)", 0).tells("unused(1)", 1).tells("unused(2)", NONE).tells("count(11)", 0);
         used.then("works(0)").tells("rule(0,2)", 1);
+        House plans = new House("gear(8,1) plan(4,1,2,0,9) plan(3,1,2,0,5) works(1) plan(1,1,2,0,9) plan(4,1,2,0,5)");
+        plans.does("copy(0)", 1).does("step()", 1).tells("told(0,10)", 9).tells("count(6)", 1).tells("finding(0,4)", 1);
+        plans.does("plan(4,2,2,0,3)", 2).then("works(0)").tells("count(11)", 2);
     }
 
     private static void copyAnew() {
@@ -406,9 +408,12 @@ final class EdgeBuildTest {
                 + "how many;");
         House h = new House("load::1;:2;:3; step()");
         h.then("type::4;").does("load()", 1).tells("count(4)", 1).tells("rule(0,0)", 4).tells("rule(1,0)", NONE);
+        h.tells("said(0)", ':').tells("said(1)", '4').tells("said(2)", ';').tells("said(3)", NONE);
         h.tells("count(10)", 0).tells("count(8)", 0).refusesToLoad(-100).tells("count(4)", 1);
         h.then("type::0;:0;:0;:0;:0;:0;:0;:0;:0;:0;:0;:39;").does("load()", 12).tells("rule(11,0)", 39);
         h.then("works(1)").tells("count(4)", 0);
+        House used = new House("gear(3,1) load:D=1,W=1:5; come(0,1,1) tag(1,0,1) step()").tells("rule(0,2)", 1);
+        used.then("type::5;").does("load()", 1).tells("rule(0,2)", 0).tells("rule(0,1)", 0).tells("unused(0)", 0);
     }
 
     private static void planOutside() {

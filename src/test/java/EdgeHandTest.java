@@ -3,11 +3,8 @@ final class EdgeHandTest {
     private static final int UNKNOWN = Edge.UNKNOWN, OUTSIDE = Edge.OUTSIDE, STATE = Edge.STATE, FULL = Edge.FULL,
             UNREAD = Edge.UNREAD, NONE = Edge.NONE, NULL = Edge.NULL, CAST = Edge.CAST, INDEX = Edge.INDEX,
             STORE = Edge.STORE, SIZE = Edge.SIZE;
-    /** GEAR k is of KIND k, of LENGTH 2 where it is one of TAKERS. */
-    private static final String ALL_KINDS = "gear(0,2) gear(1,2) gear(2,2) gear(3,2) gear(4,2) gear(5,2) gear(6,2) gear(7,2)"
-            + " gear(8,2) gear(9,0) gear(10,0)";
-    /** SCANNER 0 to CHUTE 1 to DOOR 2, which is OPEN: what can be read is OUT in the second STEP. */
-    private static final String SORTER = "gear(3,1) gear(7,1) gear(9,0) row:0>1 row:1>2 load::1; door(2,true)";
+    private static final String ALL_KINDS = Edge.ALL_KINDS;
+    private static final String SORTER = Edge.SORTER;
     private static final String[] NO_GEAR = {"-1", "11", "39", "40", "MIN", "MAX"};
 
     public static void main(String[] args) {
@@ -30,6 +27,7 @@ final class EdgeHandTest {
         carryChutes();
         carryDone();
         group();
+        groupTypes();
         enterRefused();
         enterStore();
         tally();
@@ -250,7 +248,7 @@ final class EdgeHandTest {
             h.refuses("turn(5,0)", STATE).refuses("turn(5,1)", STATE).refuses("turn(6,2)", STATE).refuses("turn(6,0)", STATE);
             h.refuses("turn(5,2)", INDEX).refuses("turn(6,-1)", INDEX).then("step()");
         }
-        h.then("carry(1,0)").does("turn(5,0)", 1);
+        h.then("carry(1,0)").does("turn(5,0)", 1).refuses("turn(0,0)", CAST);
     }
 
     private static void release() {
@@ -317,6 +315,9 @@ final class EdgeHandTest {
                 + "GEAR's WAIT is 0: the HOLD.");
         House h = jammed(8).does("clear(1)", 0).slots(0, 1, 0).slots(1, 0, 0).tells("parcel(1,4)", UNREAD);
         h.isTold(1, 3, 0, 3, 1, 1).isTold(0, 5, 1, 0).isTold(1, 9, 0).tells("jam(0)", NONE).tells("parcel(1,5)", 2);
+        House scanned = new House("gear(3,1) gear(8,1) row:0> load::5; come(0,1,1) tag(1,0,1) step()*8");
+        scanned.tells("parcel(1,4)", 5).tells("parcel(1,7)", 1).does("clear(0)", 1).tells("parcel(1,4)", UNREAD);
+        scanned.tells("parcel(1,7)", 0).tells("told(0,3)", 0).tells("told(1,3)", 0);
         h.tells("way(1,1)", 0).tells("audit()", NONE).then("come(1,6,6) step()*9").does("clear(1)", 0).slots(0, 2, 1);
         h.then("come(1,7,7) step()*9").tells("told(0,3)", 17).refuses("carry(3,0)", STATE).does("clear(1)", 3)
                 .refuses("clear(0)", FULL);
@@ -394,6 +395,16 @@ final class EdgeHandTest {
             rows.does("tally(" + i + ",1)", 0).does("group(" + i + ",1,8)", 8).refuses("tally(" + i + ",1)", NULL);
             rows.refuses("tally(" + (i + 1) % 4 + ",0)", NULL).then("works(1)").refuses("tally(" + i + ",0)", NULL);
         }
+    }
+
+    private static void groupTypes() {
+        Edge.promise(22, "of a TYPE: n.");
+        House h = new House(ALL_KINDS);
+        // Each TYPE behind each other one, with a GEAR that only the new one, or only the old one, has room for.
+        h.does("group(0,3,1)", 1).does("enter(0,0,7)", 1).does("group(0,2,1)", 1).refuses("enter(0,0,7)", STORE);
+        h.does("enter(0,0,3)", 1).does("group(0,1,1)", 1).does("enter(0,0,0)", 1).refuses("enter(0,0,7)", STORE);
+        h.does("group(0,0,1)", 1).does("enter(0,0,10)", 1).does("group(0,3,1)", 1).refuses("enter(0,0,0)", STORE);
+        h.does("group(1,1,1)", 1).refuses("enter(0,0,0)", STORE).does("enter(1,0,0)", 1).does("enter(0,0,8)", 1);
     }
 
     private static void enterRefused() {

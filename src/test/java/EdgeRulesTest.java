@@ -295,6 +295,9 @@ final class EdgeRulesTest {
         quotient(built + "row:2>3", "2", 0);
         quotient(built + "row:2>39,-1,3", "2", 0);
         quotient(built + "row:2>1,0,3", "2", 0);
+        House zero = new House("gear(9,0) gear(3,1) gear(8,1) row:1> row:2>0 load:Q2=0:7;:8; door(0,true) come(1,1,1) "
+                + "tag(1,0,0)");
+        zero.then("step()").tells("parcel(1,4)", 7).tells("count(6)", 1);
         quotient("gear(9,0) gear(8,1)", "2", ZERO);
         quotient("gear(9,0) gear(8,1) row:2>1", "2", ZERO);
     }

@@ -6,8 +6,7 @@ final class EdgeStepTest {
             UNREAD = Edge.UNREAD, NONE = Edge.NONE;
     /** FAULTS as FINDINGS tell them. */
     private static final int NULL = 1, CAST = 2, INDEX = 3;
-    private static final String ALL_KINDS = "gear(0,2) gear(1,2) gear(2,2) gear(3,2) gear(4,2) gear(5,2) gear(6,2) gear(7,2)"
-            + " gear(8,2) gear(9,0) gear(10,0)";
+    private static final String ALL_KINDS = Edge.ALL_KINDS;
     /** 40 PANELS without ROWS: each STEP has 40 FAULTS, so 124 STEPS have 4,960. */
     private static final String FAULTS_4960 = "gear(10,0)*40 night(0,20)*6 step()*4";
 
@@ -20,6 +19,8 @@ final class EdgeStepTest {
         nightEnds();
         backRefused();
         backUndone();
+        backOut(0);
+        backOut(39);
         statusOfEach();
         statusOfTold();
         keptThirty();
@@ -226,6 +227,34 @@ final class EdgeStepTest {
         h.tells("left(5)", -11).tells("left(7)", UNKNOWN).tells("count(13)", 6).does("come(1,1,1)", 7);
         House two = new House(built).does("back(2)", 0).tells("left(1)", -10).tells("left(2)", NONE).tells("left(5)", -11);
         two.then("works(1)").tells("slot(0,0)", 5).tells("count(1)", 1).refuses("back(1)", STATE);
+    }
+
+    /** Of each WORKS one was OUT ahead of the STEP that is gone back to, and stays so; one was given since,
+            and OUT by that DOOR. */
+    private static void backOut(int door) {
+        Edge.promise(27, "NUMBERS that were given since in this WORKS are UNDONE: no PARCEL has them.");
+        House h = new House("gear(9,0) gear(3,1) gear(7,1) gear(9,0)*37 row:1>2 row:2>0,39 load:D=1:2;:2; works(1) copy(0)");
+        h.then("works(2) copy(0)");
+        for (int w = 0; w < 3; w++) {
+            h.then("works(" + w + ") door(0,true)");
+            for (int p = 3 * w + 1; p <= 3 * w + 3; p++) {
+                h.then(p % 3 == 0 && door == 39 ? "door(0,false) door(39,true)" : "door(0,true)");
+                h.then("come(1,1,1) tag(" + p + ",0,0) step()*2");
+            }
+        }
+        for (int w = 0; w < 3; w++) {
+            int first = 3 * w + 1;
+            h.then("works(" + w + ") back(4)").is("left(" + first + ")", 1000 * w).is("left(" + (first + 1) + ")", -10 - w);
+            h.is("left(" + (first + 2) + ")", NONE);
+            for (int p = first + 3; p <= 9; p++) {
+                h.is("left(" + p + ")", 1000 * ((p - 1) / 3) + (p % 3 == 0 ? door : 0));
+            }
+            h.then("back(1)").is("left(" + first + ")", -10 - w).is("left(" + (first + 1) + ")", NONE);
+        }
+        for (int w = 0; w < 3; w++) {
+            h.is("left(" + (3 * w + 1) + ")", -10 - w).is("left(" + (3 * w + 2) + ")", NONE)
+                    .is("left(" + (3 * w + 3) + ")", NONE);
+        }
     }
 
     // ---- promise 28

@@ -7,8 +7,7 @@ final class EdgeTermsTest {
             STORE = Edge.STORE, SIZE = Edge.SIZE;
     /** FAULTS as FINDINGS tell them. */
     private static final int NULL_FOUND = 1, INDEX_FOUND = 3, ZERO_FOUND = 6;
-    private static final String ALL_KINDS = "gear(0,2) gear(1,2) gear(2,2) gear(3,2) gear(4,2) gear(5,2) gear(6,2) gear(7,2)"
-            + " gear(8,2) gear(9,0) gear(10,0)";
+    private static final String ALL_KINDS = Edge.ALL_KINDS;
     /** Two WORKS with something of everything, and letters that are typed; GEAR k of WORKS 0 is of KIND k. */
     private static final String RICH = ALL_KINDS
             + " row:0>3 row:3>5 row:5>8,7 row:7>9 row:8>2 row:2>6 row:6>7,1,8 row:10>0,3 row:1>4"
@@ -390,6 +389,14 @@ final class EdgeTermsTest {
                 .then("carry(1,0) carry(1,1) tag(1,0,1) step()");
         h.tells("parcel(1,4)", 39).then("carry(1,0) carry(1,1) tag(1,0,2) step()").tells("parcel(1,4)", NONE);
         h.then("carry(1,0) carry(1,1) label(1,-1) step()").tells("parcel(1,4)", UNREAD);
+        // One that comes behind another one that is OUT has nothing of that.
+        House next = new House(Edge.SORTER, "gear(0,1) come(3,5,5) carry(1,0) tag(1,0,0) step()*2").tells("left(1)", 2);
+        next.does("come(3,6,7)", 2);
+        int[] want = {3, 0, 6, 7, NONE, 1, NONE, 0};
+        for (int what = 0; what <= 7; what++) {
+            next.tells("parcel(2," + what + ")", want[what]);
+        }
+        next.tells("way(2,0)", 3).tells("way(2,1)", NONE).tells("byteOf(2,0)", NONE);
     }
 
     private static void ways() {
@@ -531,7 +538,8 @@ final class EdgeTermsTest {
         Edge.part(6, "what is KEPT is TIME, PARCELS with all that is theirs, SLOTS, SIDES, OPEN, WAITS, LAMPS, counts, "
                 + "RELEASES, LASTS, DIALS, how often RULES were USED, FINDINGS, OUTS; as it was ahead of a STEP");
         String[] byHand = {"", "come(2,1,1)", "label(1,0) label(3,3)", "put(1,0,7) put(1,11,255)", "tag(1,1,99) tag(4,0,1)",
-            "door(9,false)", "turn(5,1) turn(6,0)", "release(8,20)", "carry(1,2) carry(3,4) carry(4,0)", "step()", "night(5,3)"};
+            "door(9,false)", "door(9,true)", "turn(5,1) turn(6,0)", "release(8,19)", "release(8,0)",
+            "carry(1,2) carry(3,4) carry(4,0)", "step()", "night(5,3)"};
         for (int steps = 0; steps <= 8; steps++) {
             House before = new House(RICH).then(steps == 0 ? "count(0)" : "step()*" + steps);
             for (String script : byHand) {
@@ -539,9 +547,16 @@ final class EdgeTermsTest {
                 Twins.same(before.changes(), "step() " + script + " back(" + more + ")", EdgeTermsTest::isKept);
             }
         }
+        House last = new House("gear(0,1) gear(0,1) gear(2,1) gear(0,8) row:0>2 row:1>2 row:2>3 come(0,1,1) come(1,1,1) "
+                + "step()*2");
+        Twins.same(last.tells("told(2,13)", 1).changes(), "step() back(1)", EdgeTermsTest::isKept);
+        // Where one was that is OUT another one comes, by another GEAR.
+        House place = new House(Edge.SORTER, "gear(0,1) come(0,5,5) tag(1,0,0) step()");
+        Twins.same(place.changes(), "step() come(3,6,6) label(2,3) back(1)", EdgeTermsTest::isKept);
+        Twins.same(place.changes(), "step() come(3,6,6) step() carry(2,0) back(2)", EdgeTermsTest::isKept);
         thirtyGoBack();
         Edge.part(6, "The latest 30 OUTS are kept (all are counted).");
-        House sorter = new House("gear(3,1) gear(7,1) gear(9,0) row:0>1 row:1>2 load::1; door(2,true) gear(10,0)");
+        House sorter = new House(Edge.SORTER + " gear(10,0)");
         for (int p = 1; p <= 31; p++) {
             sorter.then("come(0,1,1) tag(" + p + ",0,0) step()*2");
         }
@@ -556,7 +571,7 @@ final class EdgeTermsTest {
         for (int g = 3; g < 32; g++) {
             come.append("come(").append(g).append(",").append(g).append(",1) ");
         }
-        House h = new House("gear(3,1) gear(7,1) gear(9,0) row:0>1 row:1>2 load::1; door(2,true) gear(0,2)*29", come.toString());
+        House h = new House(Edge.SORTER + " gear(0,2)*29", come.toString());
         h.then("come(0,999,9) tag(30,0,50)").tells("count(1)", 30);
         Twins.same(h.changes(), "step() label(30,5) label(29,5) label(1,5) back(1)", EdgeTermsTest::isKept);
         Twins.same(h.changes(), "step()*2 label(29,5) label(1,5) back(2)", EdgeTermsTest::isKept);
@@ -568,7 +583,7 @@ final class EdgeTermsTest {
 
     private static void keptCounts() {
         Edge.part(6, "(how many came, FINDINGS, OUTS go back, too; count(7) and count(13) do not)");
-        House h = new House("gear(3,1) gear(7,1) gear(9,0) row:0>1 row:1>2 load::1; door(2,true) gear(10,0) step()");
+        House h = new House(Edge.SORTER + " gear(10,0) step()");
         h.then("come(0,1,1) tag(1,0,0) step()*2 come(0,1,1) tag(2,0,0) step()*2");
         int[] now = {4, 0, 2, 2, 1, 5, 5, 5, 5, 5, 0, 0, 0, 2};
         int[] back2 = {4, 1, 2, 1, 1, 3, 3, 5, 3, 0, 0, 0, 0, 2};
@@ -589,7 +604,7 @@ final class EdgeTermsTest {
 
     private static void outsKept() {
         Edge.part(6, "The latest 30 OUTS are kept (all are counted).");
-        House h = new House("gear(3,1) gear(7,1) gear(9,0) row:0>1 row:1>2 load::1; door(2,true)");
+        House h = new House(Edge.SORTER);
         for (int p = 1; p <= 31; p++) {
             h.then("come(0,1,1) tag(" + p + ",0,0) step()*2").is("count(3)", p).is("out(0,0)", p);
             h.is("out(" + Math.min(p - 1, 29) + ",0)", p <= 30 ? 1 : 2).is("out(" + Math.min(p, 30) + ",0)", NONE);

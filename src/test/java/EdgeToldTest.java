@@ -1,10 +1,8 @@
 /** The edges of promises 29 to 48, what is told, each under the words of the document that name it. */
 final class EdgeToldTest {
     private static final int UNKNOWN = Edge.UNKNOWN, OUTSIDE = Edge.OUTSIDE, UNREAD = Edge.UNREAD, NONE = Edge.NONE;
-    private static final String ALL_KINDS = "gear(0,2) gear(1,2) gear(2,2) gear(3,2) gear(4,2) gear(5,2) gear(6,2) gear(7,2)"
-            + " gear(8,2) gear(9,0) gear(10,0)";
-    /** SCANNER 0 to CHUTE 1 to DOOR 2, which is OPEN: what can be read is OUT in the second STEP. */
-    private static final String SORTER = "gear(3,1) gear(7,1) gear(9,0) row:0>1 row:1>2 load::1; door(2,true)";
+    private static final String ALL_KINDS = Edge.ALL_KINDS;
+    private static final String SORTER = Edge.SORTER;
     private static final String[] NO_GEAR = {"-1", "11", "39", "40", "MIN", "MAX"};
     private static final String[] NO_PARCEL = {"0", "-1", "2", "2000", "2001", "MIN", "MAX"};
 
@@ -449,7 +447,7 @@ final class EdgeToldTest {
                 16 * 999 + 9, UNREAD,
                 2, 2, 0, 1));
         Edge.promise(48, "how many are INSIDE, came, OUT; how many FINDINGS.");
-        House out = new House("gear(3,1) gear(7,1) gear(9,0) row:0>1 row:1>2 load::1; door(2,true) plan(1,2,0,0,0)");
+        House out = new House(Edge.SORTER + " plan(1,2,0,0,0)");
         out.then("come(0,5,5) tag(1,0,0) step()*2 come(0,6,6)");
         out.tells("digest()", mixed(17, 2, 3,
                 3, 0, 0, 1, 2, 1, 0, 2, 1, 0, 1, 1, 0, 0, 16 * 6 + 6, NONE,
