@@ -39,8 +39,10 @@ final class Check {
 
     static String said(SortWorks x) {
         StringBuilder text = new StringBuilder();
-        for (int i = 0; i <= 200 && x.said(i) != SortWorks.NONE; i++) {
-            text.append((char) x.said(i));
+        int letter = x.said(0);
+        for (int i = 1; i <= 201 && letter != SortWorks.NONE; i++) {
+            text.append((char) letter);
+            letter = x.said(i);
         }
         return text.toString();
     }

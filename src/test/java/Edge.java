@@ -2,6 +2,7 @@ import java.io.IOException;
 import java.nio.charset.StandardCharsets;
 import java.nio.file.Files;
 import java.nio.file.Path;
+import java.util.Collections;
 import java.util.LinkedHashMap;
 import java.util.Map;
 import java.util.Set;
@@ -20,13 +21,18 @@ final class Edge {
     static final String SORTER = "gear(3,1) gear(7,1) gear(9,0) row:0>1 row:1>2 load::1; door(2,true)";
 
     private static final Path DOCUMENT = Path.of("../shared/DOC.md");
+    private static final Pattern HEAD = Pattern.compile(
+            "(?m)^(?:## (What it is|The public face|Terms|Promise \\d+|Not promised)|==== (\\d) )");
     private static final Map<String, String> SECTIONS = sections();
     private static final Set<String> TESTED = new TreeSet<>();
 
     private Edge() {
     }
 
-    /** Sections are "What it is", "Terms" (what is ahead of its parts), "Part 1" to "Part 6", "Promise 1" to "Promise 48". */
+    /**
+     * Sections are "What it is", "The public face", "Terms" (what is ahead of its parts), "Part 1" to "Part 6", "Promise 1" to
+     * "Promise 48", "Not promised".
+     */
     private static Map<String, String> sections() {
         String text;
         try {
@@ -35,7 +41,7 @@ final class Edge {
             throw new IllegalStateException(DOCUMENT + " can't be read", e);
         }
         Map<String, String> all = new LinkedHashMap<>();
-        Matcher head = Pattern.compile("(?m)^(?:## (What it is|Terms|Promise \\d+)|## .*|==== (\\d) )").matcher(text);
+        Matcher head = HEAD.matcher(text);
         String name = null;
         int start = 0;
         while (head.find()) {
@@ -51,6 +57,10 @@ final class Edge {
         if (name != null) {
             all.put(name, text);
         }
+    }
+
+    static Map<String, String> document() {
+        return Collections.unmodifiableMap(SECTIONS);
     }
 
     /** What is asked from here on belongs to these words of that section. */

@@ -51,7 +51,10 @@ final class EdgeRulesTest {
     }
 
     private static void lettersThatCanCome() {
-        Edge.part(3, "the first letter that can't come tells its place (from 0;");
+        Edge.part(3, "RULES are typed as letters: text: rule {rule}. rule: [test {',' test}] ':' number ';'. test: ('D' | 'W' "
+                + "| 'S' | 'T') sign number | 'Q' number sign number. sign: '<' | '=' | '>'.");
+        Edge.part(3, "(No other letters. [x] is x or nothing, {x} any number of x, x | y one of both.)");
+        Edge.part(3, "A text is judged from its first letter on: the first letter that can't come tells its place (from 0;");
         mayCome("", SUBJECTS + ":");
         mayCome(":1;", SUBJECTS + ":");
         mayCome(":1;:2;", SUBJECTS + ":");
@@ -240,7 +243,7 @@ final class EdgeRulesTest {
     }
 
     private static void upToTheFirst() {
-        Edge.part(3, "if its tests, in order, up to the first that is not so, are");
+        Edge.part(3, "A RULE HOLDS for what was read, if its tests, in order, up to the first that is not so, are");
         target("D=51,Q40=1:7;:8;", 8);
         target("D=50,W=1,Q40=1:7;:8;", 8);
         House h = new House("gear(3,1) row:0> load:D=50,Q40=1,D=51:7;Q39=1:6;:8; come(0,500,5) tag(1,0,50) step()");

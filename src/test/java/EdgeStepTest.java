@@ -229,8 +229,10 @@ final class EdgeStepTest {
         two.then("works(1)").tells("slot(0,0)", 5).tells("count(1)", 1).refuses("back(1)", STATE);
     }
 
-    /** Of each WORKS one was OUT ahead of the STEP that is gone back to, and stays so; one was given since,
-            and OUT by that DOOR. */
+    /**
+     * Of each WORKS one was OUT ahead of the STEP that is gone back to, and stays so; one was given since, and OUT by that
+     * DOOR.
+     */
     private static void backOut(int door) {
         Edge.promise(27, "NUMBERS that were given since in this WORKS are UNDONE: no PARCEL has them.");
         House h = new House("gear(9,0) gear(3,1) gear(7,1) gear(9,0)*37 row:1>2 row:2>0,39 load:D=1:2;:2; works(1) copy(0)");
@@ -329,7 +331,7 @@ final class EdgeStepTest {
     // ---- part 4
 
     private static void keptThirty() {
-        Edge.part(4, "What is there is KEPT (30 at most, the eldest goes).");
+        Edge.part(4, "A STEP. What is there is KEPT (30 at most, the eldest goes).");
         House h = new House("gear(0,8)");
         for (int t = 1; t <= 32; t++) {
             h.then("come(0," + t + ",1) step()").is("count(8)", Math.min(t, 30));
@@ -475,14 +477,16 @@ final class EdgeStepTest {
     }
 
     private static void mergeChooses() {
-        Edge.part(4, "of all TAKERS but KIND 7 that act in this STEP and have a PARCEL in the last SLOT");
+        Edge.part(4, "Each MERGE, by numbers, CHOOSES, as all is then: of all TAKERS but KIND 7 that act in this STEP and have "
+                + "a PARCEL in the last SLOT");
         House curve = merging("1000").then("rank(1,1) come(0,1,1) come(1,1,1) step()").tells("told(4,13)", 2);
         curve.then("step()*2").tells("told(4,13)", 2).then("step()").tells("told(4,13)", 1);
         House slots = new House("gear(0,2) gear(0,1) gear(2,2) row:0>2 row:1>2 rank(0,9) come(0,1,1) come(1,1,1)");
         slots.then("step()").tells("told(2,13)", 2).slots(0, 0, 1);
         House none = new House("gear(0,2) gear(2,1) row:0>1 come(0,1,1) step()").tells("told(1,13)", 0).then("step()");
         none.tells("told(1,13)", 1);
-        Edge.part(4, "whose LINK (of DIVERTS that of their SIDE, else 0; of a HOLD, if it has RELEASES) leads to the MERGE");
+        Edge.part(4, "and whose LINK (of DIVERTS that of their SIDE, else 0; of a HOLD, if it has RELEASES) leads to the "
+                + "MERGE");
         for (int side = 0; side <= 2; side++) {
             House h = new House("gear(6,1) gear(0,1) gear(2,1) gear(0,8) row:1>2 row:0>3,2,3 turn(0," + side + ")");
             h.then("come(0,1,1) come(1,1,1) step()").tells("told(2,13)", side == 1 ? 1 : 2);
@@ -558,7 +562,8 @@ final class EdgeStepTest {
         for (int i = 0; i < labels.length; i++) {
             new House(built, "carry(1,1)", labels[i], "step()").tells("parcel(1,4)", targets[i]);
         }
-        Edge.part(4, "NONE if none does. A RULE that comes to a FAULT does not hold.");
+        Edge.part(4, "Else RULES are asked in order: the first that HOLDS tells its TARGET by its number, and was USED; NONE "
+                + "if none does. A RULE that comes to a FAULT does not hold.");
         new House("gear(3,1) come(0,1,1) tag(1,0,1) step()").tells("parcel(1,4)", NONE).tells("parcel(1,7)", 1);
         House h = new House("gear(3,1) row:0> load:Q40=1:1;Q39=1:2;Q0=1:3;:4;:5; come(0,1,1) tag(1,0,1) step()");
         h.tells("parcel(1,4)", 4).tells("count(6)", 4).tells("unused(3)", 4).tells("unused(4)", NONE).tells("rule(3,2)", 1);
@@ -586,8 +591,8 @@ final class EdgeStepTest {
     }
 
     private static void movesUp() {
-        Edge.part(4, "SLOT by SLOT from the last but one down: a PARCEL that has not MOVED moves up, if the next SLOT is "
-                + "empty, and has MOVED.");
+        Edge.part(4, "Then, whatever came, SLOT by SLOT from the last but one down: a PARCEL that has not MOVED moves up, if "
+                + "the next SLOT is empty, and has MOVED.");
         House h = new House("gear(0,4) come(0,1,1) step() come(0,1,1) step() come(0,1,1) step() come(0,1,1)")
                 .slots(0, 4, 3, 2, 1);
         h.then("step()").slots(0, 4, 3, 2, 1).isTold(0, 3, 1).then("gear(0,1) carry(1,1) step()").slots(0, 0, 4, 3, 2);
@@ -604,7 +609,8 @@ final class EdgeStepTest {
     }
 
     private static void panels() {
-        Edge.part(4, "(NULL, INDEX: the DIAL stays; NOTHING: NULL, at LINK 0)");
+        Edge.part(4, "A PANEL: its DIAL becomes the LOADS together of what it comes to when it FOLLOWS its LINKS, all of its "
+                + "ROW (NULL, INDEX: the DIAL stays; NOTHING: NULL, at LINK 0)");
         String built = "gear(10,0) gear(0,8) gear(0,1) row:1> row:2> come(1,1,1) step() come(1,1,1) come(2,1,1)";
         House h = new House(built, "row:0>1,2,1 step()").tells("told(0,14)", 5).tells("told(0,4)", 1);
         long[][] wants = {
@@ -639,8 +645,8 @@ final class EdgeStepTest {
     }
 
     private static void chutesGive() {
-        Edge.part(4, "KIND 7 FOLLOWS its LINKS from 0 on, as many as its ROW has: CAST: no DOOR; the first one OPEN takes "
-                + "it: it is OUT. (NULL: NOTHING.)");
+        Edge.part(4, "GIVEN: KIND 7 FOLLOWS its LINKS from 0 on, as many as its ROW has: CAST: no DOOR; the first one OPEN "
+                + "takes it: it is OUT. (NULL: NOTHING.)");
         chuting("step()").isRow("finding", 0, 2, 0, 1, NULL, 1).isTold(0, 3, 1, 3);
         chuting("row:0> step()").tells("count(6)", 0).isTold(0, 3, 1, 2);
         chuting("row:0>1,2,1 step()").tells("count(6)", 0).isTold(0, 3, 1, 2).tells("count(3)", 0);
@@ -655,7 +661,8 @@ final class EdgeStepTest {
     }
 
     private static void othersGive() {
-        Edge.part(4, "All others FOLLOW one LINK (of DIVERTS that of the SIDE, else 0); CAST: no TAKER;");
+        Edge.part(4, "All others FOLLOW one LINK (of DIVERTS that of the SIDE, else 0); CAST: no TAKER; that one is ASKED "
+                + "whether it takes it.");
         String[] rows = {"", "row:0>", "row:0>-1", "row:0>39", "row:0>3", "row:0>1", "row:0>2"};
         int[] faults = {NULL, INDEX, INDEX, NULL, NULL, CAST, CAST};
         for (int kind : new int[] {0, 1, 2, 3, 4, 5, 6}) {
@@ -729,7 +736,11 @@ final class EdgeStepTest {
         // 16 of PLANS, 40 of PANELS in one STEP: just those of PANELS are kept.
         House one = new House("gear(10,0)*40 plan(1,1,0,0,0)*16 step()").tells("count(6)", 56).tells("finding(0,1)", 39);
         one.isRow("finding", 39, 1, 0, 4, NULL, 0).tells("finding(40,1)", NONE).tells("count(7)", 56);
-        Edge.part(4, "TIME, GEAR (NONE of PLANS), the ACT (1 GIVEN, 2 READ, 3 RULE, 4 PANEL, 5 PLAN), the FAULT, and what");
+        Edge.part(4, "FINDINGS: each FAULT in a STEP, at once: TIME, GEAR (NONE of PLANS), the ACT (1 GIVEN, 2 READ, 3 RULE, 4 "
+                + "PANEL, 5 PLAN), the FAULT, and what: the PARCEL's NUMBER (1, 2), the RULE's number, the LINK's number (4), "
+                + "the PLAN's number.");
+        House read = new House("gear(0,1) gear(3,1) gear(3,1) come(0,1,1) come(1,1,1) come(2,1,1) label(3,0) step()");
+        read.isRow("finding", 2, 1, 0, 1, NULL, 1).isRow("finding", 1, 1, 1, 2, NULL, 2).isRow("finding", 0, 1, 2, 2, INDEX, 3);
         House acts = new House("gear(3,2) gear(10,0) load:Q40=1:1;D=1,Q0=1:2; come(0,1,1) tag(1,0,1) step() come(0,1,1)");
         acts.then("plan(2,2,0,0,0) step()*2").isRow("finding", 6, 2, NONE, 5, INDEX, 0).isRow("finding", 5, 2, 0, 3, INDEX, 0);
         acts.isRow("finding", 4, 2, 0, 3, CAST, 1).isRow("finding", 3, 2, 0, 1, NULL, 1).isRow("finding", 2, 2, 1, 4, NULL, 0);
@@ -737,8 +748,8 @@ final class EdgeStepTest {
     }
 
     private static void lamps() {
-        Edge.part(4, "its LAMP is 3, if a FINDING came in it, else 2, if its WAIT is above 0, else 1; of a DOOR 1, if it is "
-                + "OPEN, else 0. (0 at first.)");
+        Edge.part(4, "and its LAMP is 3, if a FINDING came in it, else 2, if its WAIT is above 0, else 1; of a DOOR 1, if it "
+                + "is OPEN, else 0. (0 at first.)");
         House h = new House(ALL_KINDS);
         for (int g = 0; g <= 10; g++) {
             h.is("told(" + g + ",4)", 0);
@@ -777,7 +788,8 @@ final class EdgeStepTest {
             House h = new House("gear(1,1)*29").then("gear(9,0)*" + (doors + 1)).then("step()*2").tells("count(9)", 59 + doors);
             h.tells("trace(57)", 1).tells("trace(58)", 10).tells("trace(59)", doors == 0 ? NONE : 10).tells("trace(60)", NONE);
         }
-        Edge.part(4, "of an ACT, by KINDS 0 to 10: 1; 2 and 1; 3 and 1; 4 and 1; 5, 4 and 1; 6; 7 and 6; 8; 9; 10; 11");
+        Edge.part(4, "TRACE: the bodies that ran, in the order in which they began: of an ACT, by KINDS 0 to 10: 1; 2 and 1; 3 "
+                + "and 1; 4 and 1; 5, 4 and 1; 6; 7 and 6; 8; 9; 10; 11");
         long[][] bodies = {{1}, {2, 1}, {3, 1}, {4, 1}, {5, 4, 1}, {6}, {7, 6}, {8}, {9}, {10}, {11}};
         for (int kind = 0; kind <= 10; kind++) {
             new House("gear(" + kind + ",1) step()*2").traces(bodies[kind]);

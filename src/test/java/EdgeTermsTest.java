@@ -121,7 +121,9 @@ final class EdgeTermsTest {
     }
 
     private static void firstThatFits() {
-        Edge.says("Terms", "REFUSALS, the first that fits: UNKNOWN");
+        Edge.says("Terms", "REFUSALS, the first that fits: UNKNOWN (there is no such WORKS, GEAR, GROUP, or no such PARCEL "
+                + "INSIDE the WORKS AT HAND, but for left()), OUTSIDE (another number is not as told), then FAULTS, STATE (as "
+                + "told), FULL;");
         StringBuilder come = new StringBuilder();
         for (int g = 0; g < 30; g++) {
             come.append("come(").append(g).append(",1,1) ");
@@ -201,7 +203,8 @@ final class EdgeTermsTest {
     // ---- part 1
 
     private static void fortyGear() {
-        Edge.part(1, "GEAR 0, 1, .. (40 at most), as it comes");
+        Edge.part(1, "GEAR 0, 1, .. (40 at most), as it comes, is of a KIND: 0 BELT, 1 CURVE, 2 MERGE, 3 SCANNER, 4 SCALE, 5 "
+                + "DIVERT, 6 CROSS, 7 CHUTE, 8 HOLD, 9 DOOR, 10 PANEL.");
         House h = new House();
         for (int g = 0; g < 40; g++) {
             h.is("gear(" + g % 11 + ",1)", g).is("count(0)", g + 1);
@@ -225,7 +228,7 @@ final class EdgeTermsTest {
     }
 
     private static void ownWorks() {
-        Edge.part(1, "There are WORKS 0, 1, 2, each with GEAR, PARCELS, GROUPS, RULES, PLANS, a TIME (0 at first) of its "
+        Edge.part(1, "GEAR. There are WORKS 0, 1, 2, each with GEAR, PARCELS, GROUPS, RULES, PLANS, a TIME (0 at first) of its "
                 + "own; one is AT HAND (0 at first)");
         House h = new House().tells("count(12)", 0).tells("count(5)", 0);
         h.then("gear(0,1) come(0,1,1) group(0,0,0) load::1; plan(1,1,0,0,0) step()");
@@ -260,7 +263,7 @@ final class EdgeTermsTest {
     }
 
     private static void linksAtFirst() {
-        Edge.part(1, "a GEAR has a ROW of 0 to 3 LINKS, each -1 (at first) or 0 .. 39, or NOTHING (at first).");
+        Edge.part(1, "LINKS: a GEAR has a ROW of 0 to 3 LINKS, each -1 (at first) or 0 .. 39, or NOTHING (at first).");
         for (int kind = 0; kind <= 10; kind++) {
             House h = new House("gear(" + kind + ",1)").tells("told(0,15)", NONE).tells("linkOf(0,0)", NONE);
             for (int n = 0; n <= 3; n++) {
@@ -275,8 +278,8 @@ final class EdgeTermsTest {
     }
 
     private static void followed() {
-        Edge.part(1, "NULL: it has NOTHING; INDEX: its ROW has no LINK k, or that is -1; NULL: there is no GEAR of that "
-                + "number; else one comes to that GEAR.");
+        Edge.part(1, "TO FOLLOW LINK k of a GEAR: NULL: it has NOTHING; INDEX: its ROW has no LINK k, or that is -1; NULL: "
+                + "there is no GEAR of that number; else one comes to that GEAR.");
         String built = "gear(0,1) come(0,1,1) ";
         new House(built, "step()").isRow("finding", 0, 1, 0, 1, NULL_FOUND, 1);
         new House(built, "links(0,0) step()").isRow("finding", 0, 1, 0, 1, INDEX_FOUND, 1);
@@ -422,8 +425,10 @@ final class EdgeTermsTest {
         h.does("come(0,1,1)", 31).tells("count(1)", 1).does("night(1,20)", 7).tells("count(1)", 8);
     }
 
-    /** READ of a LABEL (null: NOTHING) by a SCANNER: 0 it was read, -1 BAD,
-            or the FAULT; rules tell TARGET 7 for what is wanted. */
+    /**
+     * READ of a LABEL (null: NOTHING) by a SCANNER: 0 it was read, -1 BAD, or the FAULT; rules tell TARGET 7 for what is
+     * wanted.
+     */
     private static void reads(int want, String rules, int... bytes) {
         House h = new House("gear(3,1) row:0> load:" + rules, "come(0,123,4)");
         h.then("label(1," + (bytes == null ? -1 : bytes.length) + ")");
@@ -436,7 +441,8 @@ final class EdgeTermsTest {
     }
 
     private static void labelLacks() {
-        Edge.part(2, "NULL: there is NOTHING; INDEX: it has not so many.");
+        Edge.part(2, "TO READ a LABEL, its bytes are asked for from the first one on, one by one, each as it is needed: NULL: "
+                + "there is NOTHING; INDEX: it has not so many.");
         reads(NULL_FOUND, ":7;", (int[]) null);
         reads(INDEX_FOUND, ":7;");
         int[] a = {'A', '1', '2', '1', '2', '3', '4', '7'};
@@ -455,7 +461,10 @@ final class EdgeTermsTest {
     }
 
     private static void labelFormA() {
-        Edge.part(2, "(bytes 48 .. 57; the first other byte is BAD at once)");
+        Edge.part(2, "The first byte is 65: FORM A: two digits tell the PLACE, three the WEIGHT, one the SIZE, one is the "
+                + "CHECK (bytes 48 .. 57; the first other byte is BAD at once)");
+        // 12 + 2 + 3 + 2 + 9 + 5 = 33
+        reads(0, "D=42,W=123,S=5:7;", 'A', '4', '2', '1', '2', '3', '5', '7');
         for (int i = 1; i <= 7; i++) {
             for (int other : new int[] {0, 47, 58, 65, 176, 185, 255}) {
                 int[] label = {'A', '0', '0', '0', '0', '0', '0', '0'};
@@ -468,7 +477,8 @@ final class EdgeTermsTest {
         reads(0, "D=0,W=0,S=0:7;", 'A', '0', '0', '0', '0', '0', '0', '0');
         // 27 + 9 + 27 + 9 + 27 + 9 = 108
         reads(0, "D=99,W=999,S=9:7;", 'A', '9', '9', '9', '9', '9', '9', '2');
-        Edge.part(2, "it is BAD, if 3 a + b + 3 c + d + 3 e + f and the CHECK are together no multiple of 10");
+        Edge.part(2, "it is BAD, if 3 a + b + 3 c + d + 3 e + f and the CHECK are together no multiple of 10, a to f "
+                + "being the six digits before.");
         int[] weights = {3, 1, 3, 1, 3, 1};
         for (int i = 0; i < 6; i++) {
             for (int check = 0; check <= 9; check++) {
@@ -480,7 +490,11 @@ final class EdgeTermsTest {
     }
 
     private static void labelFormB() {
-        Edge.part(2, "it is BAD, if that is not 7 p + 5 h + 3 l + s modulo 97");
+        Edge.part(2, "It is 66: FORM B (bytes as 0 .. 255): one tells the PLACE, two the WEIGHT (the first 256 times), one the "
+                + "SIZE, one is the CHECK: it is BAD, if that is not 7 p + 5 h + 3 l + s modulo 97, these being the four "
+                + "before.");
+        // 7 + 10 + 9 + 4 = 30
+        reads(0, "D=1,W=515,S=4:7;", 66, 1, 2, 3, 4, 30);
         int[][] rows = {
             // p, h, l, s, the CHECK by hand
             {0, 0, 0, 0, 0}, {0, 0, 0, 96, 96}, {0, 0, 0, 97, 0}, {0, 0, 32, 0, 96}, {0, 0, 32, 1, 0}, {0, 19, 0, 1, 96},
@@ -535,8 +549,8 @@ final class EdgeTermsTest {
     }
 
     private static void keptGoesBack() {
-        Edge.part(6, "what is KEPT is TIME, PARCELS with all that is theirs, SLOTS, SIDES, OPEN, WAITS, LAMPS, counts, "
-                + "RELEASES, LASTS, DIALS, how often RULES were USED, FINDINGS, OUTS; as it was ahead of a STEP");
+        Edge.part(6, "GO BACK: what is KEPT is TIME, PARCELS with all that is theirs, SLOTS, SIDES, OPEN, WAITS, LAMPS, "
+                + "counts, RELEASES, LASTS, DIALS, how often RULES were USED, FINDINGS, OUTS; as it was ahead of a STEP");
         String[] byHand = {"", "come(2,1,1)", "label(1,0) label(3,3)", "put(1,0,7) put(1,11,255)", "tag(1,1,99) tag(4,0,1)",
             "door(9,false)", "door(9,true)", "turn(5,1) turn(6,0)", "release(8,19)", "release(8,0)",
             "carry(1,2) carry(3,4) carry(4,0)", "step()", "night(5,3)"};

@@ -408,8 +408,8 @@ final class EdgeToldTest {
     }
 
     private static void counts() {
-        Edge.promise(47, "0 GEAR, 1 PARCELS INSIDE, 2 PARCELS that came (by come(), night()), 3 OUT, 4 RULES, 5 TIME, 6 "
-                + "FINDINGS");
+        Edge.promise(47, "How many: 0 GEAR, 1 PARCELS INSIDE, 2 PARCELS that came (by come(), night()), 3 OUT, 4 RULES, 5 "
+                + "TIME, 6 FINDINGS");
         House h = new House(SORTER, "gear(10,0) come(0,1,1) tag(1,0,0) step()*2 come(0,2,2) tag(2,0,0)");
         int[] want = {4, 1, 2, 1, 1, 2, 2};
         for (int what = 0; what <= 6; what++) {

@@ -14,20 +14,12 @@ import java.util.regex.Pattern;
 
 /** The face of the document, and those rules of LANGUAGE.md that a look at the source or the classes can tell. */
 final class LanguageTest {
-    private static final String[] FACE = {
-        "int works(int)", "int gear(int,int)", "int links(int,int)", "int link(int,int,int)",
-        "int aim(int,int,int,boolean)", "int rank(int,int)", "int refit(int,int)", "int copy(int)", "int letter(int)",
-        "int load()", "int plan(int,int,int,int,int)", "int come(int,int,int)", "int label(int,int)",
-        "int put(int,int,int)", "int tag(int,int,int)", "int door(int,boolean)", "int turn(int,int)",
-        "int release(int,int)", "int clear(int)", "int carry(int,int)", "int group(int,int,int)",
-        "int enter(int,int,int)", "int tally(int,int)", "int step()", "int night(int,int)", "int back(int)",
-        "int status()", "int told(int,int)", "int slot(int,int)", "int linkOf(int,int)", "int parcel(int,int)",
-        "int way(int,int)", "int byteOf(int,int)", "int left(int)", "int out(int,int)", "int rule(int,int)",
-        "int said(int)", "int unused(int)", "int finding(int,int)", "int trace(int)", "int jam(int)",
-        "int far(int,int)", "long reach(int)", "int ring(int)", "int audit()", "int count(int)", "long digest()"};
-    private static final Set<String> CONSTANTS = Set.of("UNKNOWN", "OUTSIDE", "STATE", "FULL", "UNREAD", "NONE");
+    /** The methods, the constants with their values, as the document writes them: "int far(int,int)", "NONE = -9". */
+    private static final Set<String> FACE = new TreeSet<>(), CONSTANTS = new TreeSet<>();
 
-    public static void main(String[] args) throws IOException {
+    public static void main(String[] args) throws IOException, IllegalAccessException {
+        readFace();
+        promisesAreFace();
         face();
         nestedClasses();
         String source = Files.readString(Path.of("src/main/java/SortWorks.java"), StandardCharsets.ISO_8859_1);
@@ -41,6 +33,45 @@ final class LanguageTest {
         Check.due(what, so ? 1 : 0, 1);
     }
 
+    private static void readFace() {
+        Check.about("the document's face");
+        String text = Edge.document().get("The public face");
+        Matcher constants = Pattern.compile("public static final int ([^;]*);").matcher(text);
+        while (constants.find()) {
+            CONSTANTS.addAll(Arrays.asList(constants.group(1).split(", ")));
+        }
+        Matcher methods = Pattern.compile("public (int|long) (\\w+)\\(([^)]*)\\);").matcher(text);
+        while (methods.find()) {
+            FACE.add(signature(methods.group(1), methods.group(2), methods.group(3)));
+        }
+        Check.due("constants", CONSTANTS.size(), 6);
+        Check.due("methods", FACE.size(), 47);
+        holds("the class", text.contains("public final class SortWorks {"));
+        holds("the constructor", text.contains("public SortWorks();"));
+    }
+
+    /** Parameters lose their names: "int gear, int to" becomes "int,int". */
+    private static String signature(String answer, String name, String parameters) {
+        return answer + " " + name + "(" + parameters.replaceAll("(\\w+) \\w+", "$1").replace(" ", "") + ")";
+    }
+
+    /** The heading of each promise but the first one names a method of the face, and each method has one. */
+    private static void promisesAreFace() {
+        Set<String> promised = new TreeSet<>();
+        for (int k = 2; k <= 48; k++) {
+            Check.about("promise " + k);
+            Matcher head = Pattern.compile(": (\\w+)\\n\\n`(int|long) (\\w+)\\(([^)]*)\\)`: (?s).*")
+                    .matcher(Edge.document().get("Promise " + k));
+            boolean isHead = head.matches() && head.group(1).equals(head.group(3));
+            holds("its heading names a method", isHead);
+            if (isHead) {
+                promised.add(signature(head.group(2), head.group(3), head.group(4)));
+            }
+        }
+        Check.about("promises 2 to 48");
+        holds("are the methods of the face", promised.equals(FACE));
+    }
+
     private static String signature(Method m) {
         StringBuilder s = new StringBuilder(m.getReturnType().getName()).append(' ').append(m.getName()).append('(');
         for (Class<?> type : m.getParameterTypes()) {
@@ -49,7 +80,7 @@ final class LanguageTest {
         return s.append(')').toString();
     }
 
-    private static void face() {
+    private static void face() throws IllegalAccessException {
         Check.about("rule 1");
         Class<?> c = SortWorks.class;
         holds("public and final", c.getModifiers() == (Modifier.PUBLIC | Modifier.FINAL));
@@ -65,17 +96,25 @@ final class LanguageTest {
                 holds("public, not static: " + m, m.getModifiers() == Modifier.PUBLIC);
             }
         }
-        holds("the methods of the face: " + open, open.equals(new TreeSet<>(Arrays.asList(FACE))));
+        holds("the methods of the face: " + open, open.equals(FACE));
         hidden.retainAll(openNames);
         holds("no private method with a public name: " + hidden, hidden.isEmpty());
-        for (Field f : c.getDeclaredFields()) {
-            boolean isConstant = CONSTANTS.contains(f.getName());
-            int open2 = Modifier.PUBLIC | Modifier.STATIC | Modifier.FINAL;
-            holds("field " + f, isConstant ? f.getModifiers() == open2 : Modifier.isPrivate(f.getModifiers()));
-        }
+        constants(c);
         Constructor<?>[] made = c.getDeclaredConstructors();
         holds("one public constructor", made.length == 1 && made[0].getModifiers() == Modifier.PUBLIC
                 && made[0].getParameterCount() == 0);
+    }
+
+    private static void constants(Class<?> c) throws IllegalAccessException {
+        Set<String> open = new TreeSet<>();
+        for (Field f : c.getDeclaredFields()) {
+            if (!Modifier.isPrivate(f.getModifiers())) {
+                holds("a constant: " + f, f.getModifiers() == (Modifier.PUBLIC | Modifier.STATIC | Modifier.FINAL));
+                holds("an int: " + f, f.getType() == int.class);
+                open.add(f.getName() + " = " + f.get(null));
+            }
+        }
+        holds("the constants of the face, with their values: " + open, open.equals(CONSTANTS));
     }
 
     private static void nestedClasses() {
@@ -114,8 +153,8 @@ final class LanguageTest {
     private static void words(String code) {
         Check.about("rules 2, 4, 6, 10, 13");
         String[] never = {"throw", "throws", "try", "catch", "finally", "synchronized", "assert", "volatile", "native",
-            "Exception", "Error", "Thread", "Random", "Object", "Class", "float", "double", "var", "record", "hashCode", "equals",
-            "toString", "lambda", "yield", "do", "goto", "System\\.(?!arraycopy)", "Math\\.(?!min|max|floorMod)",
+            "Exception", "Error", "Thread", "Random", "Object", "Class", "float", "double", "var", "record", "hashCode",
+            "equals", "toString", "lambda", "yield", "do", "goto", "System\\.(?!arraycopy)", "Math\\.(?!min|max|floorMod)",
             "Arrays\\.(?!fill|copyOf)", "Integer\\.(?!compare)", "protected"};
         for (String word : never) {
             Matcher m = Pattern.compile("(?<![A-Za-z_])" + word + (word.endsWith(")") ? "" : "(?![A-Za-z_])")).matcher(code);

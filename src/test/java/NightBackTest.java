@@ -179,7 +179,8 @@ final class NightBackTest {
             }
             s.append(p).append(": ").append(x.left(p)).append(' ');
             for (int what = 0; what <= 16; what++) {
-                s.append(x.parcel(p, what)).append(' ').append(x.way(p, what)).append(' ').append(x.byteOf(p, what)).append(' ');
+                s.append(x.parcel(p, what)).append(' ').append(x.way(p, what)).append(' ');
+                s.append(x.byteOf(p, what)).append(' ');
             }
         }
         for (int i = 0; i < 40; i++) {

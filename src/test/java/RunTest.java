@@ -49,7 +49,7 @@ final class RunTest {
         RunTest noOwn = new RunTest("there is no test of the project").has(SHARED, "Given", PASSES);
         RunTest right = new RunTest("all pass").has(SHARED, "GivenOne", PASSES).has(SHARED, "GivenTwo", PASSES)
                 .has(PROJECT, "ATest", PASSES).has(PROJECT, "BTest", USES_HELPER);
-        right.write(PROJECT + "Helper.java", "final class Helper { public static void main(String[] args) { System.exit(1); } }");
+        right.write(PROJECT + "Helper.java", "class Helper { public static void main(String[] args) { System.exit(1); } }");
 
         List<RunTest> all = new ArrayList<>(failing);
         all.addAll(List.of(broken, noProgram, noGiven, noOwn, right));

@@ -889,7 +889,8 @@ final class StepTest {
         Check.about("PLANS, FAULTS");
         int[][] rows = {
             // n, op, a, b, the FAULT
-            {1, 0, 0, 0, INDEX}, {2, 0, 39, 0, INDEX}, {2, 1, 0, 0, INDEX}, {1, 0, 39, 0, INDEX}, {4, 3, 77, 0, INDEX}, {4, 3, 2, 5, INDEX}, {4, 3, 0, 1, INDEX},
+            {1, 0, 0, 0, INDEX}, {2, 0, 39, 0, INDEX}, {2, 1, 0, 0, INDEX}, {1, 0, 39, 0, INDEX},
+            {4, 3, 77, 0, INDEX}, {4, 3, 2, 5, INDEX}, {4, 3, 0, 1, INDEX},
             {4, -1, 0, 0, INDEX}, {2, 0, 0, 0, INDEX}, {2, 9, 0, 0, INDEX},
             {3, 0, 40, 0, INDEX}, {4, 0, -1, 0, INDEX}, {4, 0, 39, 0, NULL}, {3, 1, 4, 0, NULL}, {3, 0, 1, 0, CAST},
             {3, 0, 0, 0, INDEX}, {4, 0, 2, 0, CAST}, {4, 1, 0, 9, CAST}, {3, 1, 2, 0, CAST}, {3, 1, 1, 0, INDEX},

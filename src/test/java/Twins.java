@@ -4,9 +4,8 @@ import java.util.function.Predicate;
 
 /**
  * Two objects of which the same calls were made, but for one that is refused (or some that leave all as it was): whatever is
- * asked of them behind that, but status() and count(7),
-         they must answer alike. Each part of the questions is asked of two new objects, so that none comes
- * to more than 512 calls.
+ * asked of them behind that, but status() and count(7), they must answer alike. Each part of the questions is asked of two new
+ * objects, so that none comes to more than 512 calls.
  */
 final class Twins {
     private static final int NUMBERS_ASKED = 40;
