@@ -8,14 +8,7 @@ final class EdgeTermsTest {
     /** FAULTS as FINDINGS tell them. */
     private static final int NULL_FOUND = 1, INDEX_FOUND = 3, ZERO_FOUND = 6;
     private static final String ALL_KINDS = Edge.ALL_KINDS;
-    /** Two WORKS with something of everything, and letters that are typed; GEAR k of WORKS 0 is of KIND k. */
-    private static final String RICH = ALL_KINDS
-            + " row:0>3 row:3>5 row:5>8,7 row:7>9 row:8>2 row:2>6 row:6>7,1,8 row:10>0,3 row:1>4"
-            + " aim(5,1,7,true) aim(6,1,39,true) aim(6,2,0,true) rank(0,9) load:D<60:7;Q7=0:39;:8; door(9,true) release(8,3)"
-            + " plan(4,4,0,9,0) plan(3,5,0,9,0) plan(4,6,2,8,20) group(0,0,2) enter(0,0,0) enter(0,1,3) group(1,1,1)"
-            + " group(2,3,8) come(1,5,5) label(1,12)"
-            + " works(1) gear(0,1) gear(5,1) come(0,77,7) load::1; step()*2 group(3,2,1)"
-            + " works(0) night(11,9) turn(6,2) come(1,5,5) type:D=1";
+    private static final String RICH = Edge.RICH;
 
     public static void main(String[] args) {
         lastCalls();

@@ -92,6 +92,9 @@ final class PlainCallsTest {
         // The PLAN that came with it: the DOOR is not OPEN any more.
         h.does("step()", 3).isTold(1, 2, 0).tells("count(6)", 0).does("aim(0,2,39,false)", 1).does("link(0,0,39)", 1);
         h.then("works(0)").tells("linkOf(0,0)", 2).isTold(1, 2, 1).does("aim(0,2,39,false)", 1);
+        // A PLAN whose TIME is gone where it was made, but not where it is copied to.
+        House past = new House("gear(9,0) step()*5 plan(4,3,0,0,1) works(1) copy(0) step()*2").isTold(0, 2, 0).then("step()");
+        past.isTold(0, 2, 1).then("works(0)").isTold(0, 2, 0);
     }
 
     private static void letter() {
@@ -128,7 +131,8 @@ final class PlainCallsTest {
         Edge.promise(15, "Byte i of a LABEL becomes b (its lowest 8 bits): 1. UNKNOWN; NULL, INDEX.");
         House h = new House("gear(0,1) come(0,1,1)").refuses("put(2,0,0)", UNKNOWN).refuses("put(1,0,0)", NULL);
         h.then("label(1,2)").refuses("put(1,2,0)", INDEX).does("put(1,1,65)", 1).tells("byteOf(1,0)", 0);
-        h.tells("byteOf(1,1)", 65).does("put(1,1,-1)", 1).tells("byteOf(1,1)", 255).does("put(1,0,263)", 1).tells("byteOf(1,0)", 7);
+        h.tells("byteOf(1,1)", 65).does("put(1,1,-1)", 1).tells("byteOf(1,1)", 255).does("put(1,0,263)", 1);
+        h.tells("byteOf(1,0)", 7);
     }
 
     private static void isLabel(House h, int parcel, int... bytes) {

@@ -18,7 +18,9 @@ final class PlainTermsTest {
         laterCalls();
         unknown();
         kindsByBodies();
+        quotients();
         inThisOrder();
+        plansAgain();
         mergeByThen();
         scanned();
         given();
@@ -121,6 +123,20 @@ final class PlainTermsTest {
         h.tells("parcel(1,4)", 7).tells("parcel(2,4)", UNREAD);
     }
 
+    // ---- part 3
+
+    private static void quotients() {
+        Edge.part(3, "its LOAD / how many of its LINKS lead to a DOOR that is OPEN");
+        // HOLD 1 has LOAD 3. LINKS are counted, not DOORS: two that lead to one DOOR are two.
+        String[] rows = {"3", "3,3", "3,3,3", "3,4", "3,3,4", "4,4,3", "3,0,3", "3,-1,39"};
+        int[] want = {3, 1, 1, 3, 1, 3, 1, 3};
+        for (int i = 0; i < rows.length; i++) {
+            House h = new House("gear(3,1) gear(8,3) gear(0,1) gear(9,0) gear(9,0) row:0>1 row:1>" + rows[i], "door(3,true)");
+            h.then("come(0,1,1) step()*3 come(0,1,1) step()*3 come(0,1,1) step()*2").isTold(1, 9, 3);
+            h.then("load:Q1=" + want[i] + ":7;:8; come(0,1,1) tag(4,0,0) step()").tells("parcel(4,4)", 7);
+        }
+    }
+
     // ---- part 4
 
     private static void inThisOrder() {
@@ -133,6 +149,14 @@ final class PlainTermsTest {
         down.slots(0, 1).slots(1, 2).slots(2, 0).traces(1, 1, 20, 1, 20);
         House up = new House("gear(0,1) gear(0,1) gear(0,1) row:0>1 row:1>2 come(0,1,1) come(1,1,1) step()");
         up.slots(0, 1).slots(1, 0).slots(2, 2).traces(1, 20, 1, 20, 1);
+    }
+
+    private static void plansAgain() {
+        Edge.part(4, "PLANS for this TIME are done, in order.");
+        House h = new House("gear(9,0) plan(4,2,0,0,1) plan(1,2,0,0,0) step()*2").isTold(0, 2, 1).tells("count(6)", 1);
+        h.does("back(1)", 1).isTold(0, 2, 0).tells("count(6)", 0).does("step()", 2).isTold(0, 2, 1).tells("count(6)", 1);
+        h.tells("count(7)", 2).then("door(0,false) works(1) step()*2 works(0)").isTold(0, 2, 0).does("step()", 3);
+        h.isTold(0, 2, 0);
     }
 
     private static void mergeByThen() {
@@ -152,6 +176,10 @@ final class PlainTermsTest {
         h.tells("parcel(1,4)", NONE).does("step()", 3).slots(2, 1).tells("parcel(1,4)", 9).tells("parcel(1,7)", 0);
         h.tells("rule(0,2)", 1).does("step()", 4).tells("parcel(1,7)", 1).tells("rule(0,2)", 2).does("step()", 5);
         h.tells("rule(0,2)", 2).tells("parcel(1,7)", 1);
+        // It is carried to another SLOT of the same GEAR: it came into it once more, so it is SCANNED once more.
+        House same = new House("gear(3,2) row:0> load::9; come(0,1,1) tag(1,0,1) step()*2").tells("parcel(1,7)", 1);
+        same.then("step()").tells("rule(0,2)", 1).does("carry(1,0)", 0).tells("parcel(1,7)", 0).then("step()");
+        same.tells("rule(0,2)", 1).then("step()").tells("rule(0,2)", 2).tells("parcel(1,7)", 1);
         // Other TAKERS scan nothing.
         House others = new House("gear(0,1) gear(5,1) row:0>1 load::9; come(0,1,1) come(1,1,1) tag(1,0,1) tag(2,0,1) step()*3");
         others.tells("parcel(1,4)", NONE).tells("parcel(2,4)", NONE).tells("rule(0,2)", 0);

@@ -17,7 +17,11 @@ final class Twins {
 
     /** A call, or a script of calls, behind which all is as it was before, as far as is asked. */
     static void same(List<String> before, String script, Predicate<String> isAsked) {
-        for (List<String> part : parts(before, isAsked)) {
+        askAll(before, script, parts(before, isAsked));
+    }
+
+    private static void askAll(List<String> before, String script, List<List<String>> parts) {
+        for (List<String> part : parts) {
             House with = House.after(before).then(script);
             House without = House.after(before);
             for (String question : part) {
@@ -30,6 +34,37 @@ final class Twins {
             }
         }
         Check.due(script + " changes nothing", 0, 0);
+    }
+
+    /** A script that may change some of what is told of the WORKS AT HAND, or of the house: all else is as it was. */
+    static void sameButFor(List<String> before, String script, Predicate<String> mayChange) {
+        House scout = House.scout(before);
+        int hand = (int) scout.ask("count(12)");
+        int room = House.CALLS_MOST - before.size() - SCRIPT_MOST;
+        List<List<String>> parts = new ArrayList<>();
+        addParts(parts, letters(scout), "", room, question -> !mayChange.test(question));
+        addParts(parts, tallies(), "", room, question -> !mayChange.test(question));
+        for (int divert : diverts(scout)) {
+            addParts(parts, sets(divert), "", room, question -> !mayChange.test(question));
+        }
+        for (int w = 0; w < 3; w++) {
+            String go = "works(" + w + ")";
+            scout.ask(go);
+            List<String> questions = told(scout);
+            for (int g = 0; g < scout.ask("count(0)"); g++) {
+                for (int what = 0; what <= 14; what++) {
+                    questions.add("told(" + g + "," + what + ")");
+                }
+            }
+            boolean isAtHand = w == hand;
+            addParts(parts, questions, isAtHand ? "" : go, room,
+                    question -> !(isAtHand || isOfHouse(question)) || !mayChange.test(question));
+        }
+        askAll(before, script, parts);
+    }
+
+    private static boolean isOfHouse(String question) {
+        return question.startsWith("left") || question.equals("count(10)") || question.equals("count(13)");
     }
 
     private static List<List<String>> parts(List<String> before, Predicate<String> isAsked) {
@@ -157,12 +192,19 @@ final class Twins {
         return all;
     }
 
-    private static List<String> groups() {
+    private static List<String> tallies() {
         List<String> all = new ArrayList<>();
         for (int i = 0; i < 4; i++) {
             for (int what = 0; what <= 2; what++) {
                 all.add("tally(" + i + "," + what + ")");
             }
+        }
+        return all;
+    }
+
+    private static List<String> groups() {
+        List<String> all = new ArrayList<>(tallies());
+        for (int i = 0; i < 4; i++) {
             for (int gear = 0; gear < 3; gear++) {
                 all.add("enter(" + i + ",0," + gear + ")");
             }
