@@ -6,8 +6,8 @@ final class FrameTest {
      * HOLD 3, 5 in BELT 7.
      */
     private static final String WORN = "gear(3,1) gear(5,1) gear(7,1) gear(8,1) gear(9,0) gear(10,0) gear(2,1) gear(0,1)"
-            + " gear(6,2) gear(0,2) gear(8,1) row:0>1 row:1>3,2 row:2>4 row:5>0,3 row:7>6 aim(1,1,2,true) aim(8,2,7,true) rank(9,5)"
-            + " load:D<50:2;:39; plan(4,30,0,4,0) plan(3,3,0,4,1)"
+            + " gear(6,2) gear(0,2) gear(8,1) row:0>1 row:1>3,2 row:2>4 row:5>0,3 row:7>6 aim(1,1,2,true) aim(8,2,7,true)"
+            + " rank(9,5) load:D<50:2;:39; plan(4,30,0,4,0) plan(3,3,0,4,1)"
             + " door(4,true) release(10,3) come(0,5,5) tag(1,0,17) come(7,5,5) come(8,6,6) tag(3,1,9) step()*4 come(0,7,7)"
             + " step()*5 label(3,12) come(7,8,8) step() carry(3,9) turn(8,2) works(1) copy(0) night(5,4) works(0)"
             + " group(0,0,2) enter(0,0,0) enter(0,1,4) group(1,1,1) enter(1,0,7) group(2,2,1) enter(2,0,0) group(3,3,2)"
@@ -21,6 +21,7 @@ final class FrameTest {
         byHand();
         carrying();
         clearing();
+        stepping();
         onlyTelling();
         Check.end();
     }
@@ -114,6 +115,23 @@ final class FrameTest {
         new House(built).is("jam(0)", 0).is("jam(1)", 2);
         changesJust(built, "clear(0)", "jam(0) parcel(1,0) parcel(1,4) parcel(1,5) way(1,*) slot(0,0) slot(1,0) told(0,3) "
                 + "told(0,6) told(0,9) told(1,5) told(1,9) digest()");
+    }
+
+    /** Neither KIND, LENGTH, RANK, PACE, LINKS, SETS, RULES, PLANS, letters nor LABELS: just what is KEPT, and the TRACE. */
+    private static void stepping() {
+        StringBuilder may = new StringBuilder("count(1) count(3) count(5) count(6) count(8) count(9) digest() tally(*,*) jam(*)"
+                + " slot(*,*) way(*,*) finding(*,*) out(*,*) trace(*) rule(*,2) left(*)");
+        for (int what : new int[] {2, 3, 4, 5, 6, 7, 8, 9, 10, 13, 14}) {
+            may.append(" told(*,").append(what).append(")");
+        }
+        for (int what : new int[] {0, 1, 4, 5, 7}) {
+            may.append(" parcel(*,").append(what).append(")");
+        }
+        changesJust(WORN, "step()", may.toString());
+        changesJust(WORN, "step()*15", may.toString());
+        changesJust(WORN, "night(9,20)", may + " count(2) count(13)");
+        changesJust(WORN, "back(3)", may + " count(2) parcel(*,*) byteOf(*,*)");
+        changesJust(WORN, "back(10)", may + " count(2) parcel(*,*) byteOf(*,*)");
     }
 
     /** These change nothing at all, so all is asked for, what is done next, too. */
