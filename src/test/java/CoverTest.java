@@ -9,7 +9,10 @@ import java.util.Map;
 import java.util.regex.Matcher;
 import java.util.regex.Pattern;
 
-/** All that the document says, from its first line on, is quoted by a test (Edge.promise(), part(), says()). */
+/**
+ * All that the document says, from its first line on, is quoted by a test (Edge.promise(), part(), says()). Whether what stands
+ * under a quote asks for what it says can't be seen here.
+ */
 final class CoverTest {
     private static final Path TESTS = Path.of("src/test/java");
     private static final String TEXT = "\"(?:[^\"\\\\]|\\\\.)*\"";
